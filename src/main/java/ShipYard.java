@@ -236,7 +236,7 @@ public final class ShipYard {
             return DOWN;
         }
         faultKind = 0;
-        past.clear();
+        past.setLeast();
         int at = 0;
         for (int i = 1; i < commit && at >= 0; i++) {
             journal.play(at, past);
@@ -286,7 +286,7 @@ public final class ShipYard {
         if (!down) {
             return NO;
         }
-        kept.clear();
+        kept.setLeast();
         Arrays.fill(changedBy, 0);
         commits = 0;
         int at = 0;
@@ -474,7 +474,11 @@ public final class ShipYard {
         if (rule < 0 || rule >= program.rules) {
             return BAD;
         }
-        return down ? DOWN : sums.judge(program, rule);
+        if (down) {
+            return DOWN;
+        }
+        sums.workOutLets(program);
+        return sums.judge(program, rule);
     }
 
     public int steps(int rule) {
@@ -484,6 +488,7 @@ public final class ShipYard {
         if (down) {
             return DOWN;
         }
+        sums.workOutLets(program);
         sums.judge(program, rule);
         return sums.taken;
     }
@@ -492,7 +497,8 @@ public final class ShipYard {
         if (down || k < 0 || k >= program.lets || which < 0 || which > 1) {
             return NONE;
         }
-        return sums.letPart(program, k, which);
+        sums.workOutLets(program);
+        return sums.letPart(k, which);
     }
 
     // ---- plates, rods, pipes, work
@@ -616,11 +622,7 @@ public final class ShipYard {
             setLeast();
         }
 
-        void clear() {
-            setLeast();
-        }
-
-        private void setLeast() {
+        void setLeast() {
             Arrays.fill(values, 0);
             for (int table = 0; table < RULES; table++) {
                 for (int i = 0; i < ROWS[table] * FIELDS[table]; i++) {
@@ -644,7 +646,8 @@ public final class ShipYard {
         }
 
         int of(int table, int row, int field) {
-            return at(placeOf(table, row, field));
+            int place = FIRST_PLACE[table] + row * FIELDS[table] + field;
+            return place >= 0 && place < ALL_PLACES ? values[place] : 0;
         }
 
         int textBytes() {
@@ -991,14 +994,14 @@ public final class ShipYard {
                 }
                 // Each third try halves, so that the tries are enough where the slopes mislead.
                 long next = rise > 0 && i % 3 < 2 ? at + (most - amount) / rise : below + (above - below) / 2;
-                at = (int) Math.max(below + 1, Math.min(above - 1, next));
+                at = next <= below ? below + 1 : next >= above ? above - 1 : (int) next;
             }
             near[block] = below;
             return below;
         }
 
         /** Sets amount, and rise: what one point more of the level would add. */
-        void measure(int set, int a, int b, int c) {
+        private void measure(int set, int a, int b, int c) {
             amount = 0;
             rise = 0;
             for (int block = 0; block < BLOCKS; block++) {
@@ -1028,8 +1031,8 @@ public final class ShipYard {
             }
         }
 
-        /** Sets amount and the moments of a set. */
-        void weigh(int set, int a, int b, int c) {
+        /** Sets amount and the moments of what a set has in some slices. */
+        void weigh(int set, int firstSlice, int lastSlice, int a, int b, int c) {
             amount = 0;
             momentX = 0;
             momentY = 0;
@@ -1038,42 +1041,30 @@ public final class ShipYard {
                 if ((set >> block & 1) == 0) {
                     continue;
                 }
-                for (int s = sliceFrom[block]; s <= sliceTo[block]; s++) {
-                    weighSlice(block, s, a + b * (2 * s - 15), c);
+                int from = sliceFrom[block] > firstSlice ? sliceFrom[block] : firstSlice;
+                for (int s = from; s <= sliceTo[block] && s <= lastSlice; s++) {
+                    long sum = 0;
+                    long sumY = 0;
+                    long sumZ = 0;
+                    for (int k = columnFrom[block]; k <= columnTo[block]; k++) {
+                        int plane = a + b * (2 * s - 15) + c * (2 * k - 15);
+                        int i = 16 * s + k;
+                        int lower = low[i] > heightFrom[block] ? low[i] : heightFrom[block];
+                        int upper = high[i] < heightTo[block] ? high[i] : heightTo[block];
+                        upper = plane < upper ? plane : upper;
+                        if (lower < upper) {
+                            long points = upper - lower;
+                            sum += points;
+                            sumY += points * (2 * k - 15);
+                            sumZ += points * (lower + upper);
+                        }
+                    }
+                    amount += sum * bits[block];
+                    momentX += sum * bits[block] * (2 * s - 15);
+                    momentY += sumY * bits[block];
+                    momentZ += sumZ * bits[block];
                 }
             }
-        }
-
-        private void weighSlice(int block, int s, int level, int c) {
-            long sum = 0;
-            long sumY = 0;
-            long sumZ = 0;
-            for (int k = columnFrom[block]; k <= columnTo[block]; k++) {
-                int plane = level + c * (2 * k - 15);
-                int lower = Math.max(low[16 * s + k], heightFrom[block]);
-                int upper = Math.min(plane, Math.min(high[16 * s + k], heightTo[block]));
-                if (lower < upper) {
-                    long points = upper - lower;
-                    sum += points;
-                    sumY += points * (2 * k - 15);
-                    sumZ += points * (lower + upper);
-                }
-            }
-            amount += sum * bits[block];
-            momentX += sum * bits[block] * (2 * s - 15);
-            momentY += sumY * bits[block];
-            momentZ += sumZ * bits[block];
-        }
-
-        /** What a set has in one slice. */
-        long inSlice(int set, int s, int level, int c) {
-            amount = 0;
-            for (int block = 0; block < BLOCKS; block++) {
-                if ((set >> block & 1) != 0 && s >= sliceFrom[block] && s <= sliceTo[block]) {
-                    weighSlice(block, s, level, c);
-                }
-            }
-            return amount;
         }
     }
 
@@ -1089,17 +1080,21 @@ public final class ShipYard {
         private final Hull hull;
         boolean known;
         final long[] told = new long[12];
-        private int open, liquidBits;
+        private int open, liquidBits, turn;
         private long weight, afloat;
+        /** What a moment counts in T, and in U. */
+        private final long[] scale = new long[2];
         /** The moments of the weights alone; and the water's less all weight's, by the latest tilt. */
         private final long[] fixed = new long[3];
         private final long[] apart = new long[3];
+        /** Of each fill: its points, what each of them weighs, and its level at rest. */
+        private final long[] points = new long[16];
+        private final long[] heavy = new long[16];
         private final int[] liquids = new int[16];
         private final long[] loads = new long[16];
         /** Levers that were worked out in this turn, for each c: rules ask for the same ones often. */
         private final long[] levers = new long[2 * STEEPEST + 1];
         private final int[] leverTurn = new int[2 * STEEPEST + 1];
-        private int turn;
 
         Sea(Model model) {
             this.model = model;
@@ -1191,21 +1186,23 @@ public final class ShipYard {
             for (int p = 0; p < 16; p++) {
                 boolean isOpen = (open >> p & 1) != 0;
                 hull.bits[p + 1] = isOpen ? model.of(SPACES, p, 7) - Hull.WATER : 1;
-                if (!isOpen && model.of(FILLS, p, 0) > 0) {
+                points[p] = (long) Hull.POINTS * model.of(FILLS, p, 0);
+                heavy[p] = model.of(FILLS, p, 1);
+                if (!isOpen && points[p] > 0) {
                     liquidBits |= 1 << p;
-                    weight += pointsOf(p) * model.of(FILLS, p, 1);
+                    weight += points[p] * heavy[p];
                 }
             }
-            hull.measure(seaSet(), Hull.HIGHEST, 0, 0);
+            for (int axis = X; axis <= Y; axis++) {
+                long size = model.of(YARD, 0, axis);
+                scale[axis] = 2048 * size * size;
+            }
+            hull.weigh(seaSet(), 0, 15, Hull.HIGHEST, 0, 0);
             told[ALL] = hull.amount;
         }
 
         private int seaSet() {
             return 1 | open << 1;
-        }
-
-        private long pointsOf(int p) {
-            return (long) Hull.POINTS * model.of(FILLS, p, 0);
         }
 
         private int heel() {
@@ -1272,16 +1269,15 @@ public final class ShipYard {
             return low;
         }
 
-        /** T or U by the latest tilt; the yard's length and breadth have the axes' numbers. */
+        /** T or U by the latest tilt. */
         private long turning(int axis, int slope) {
-            long size = model.of(YARD, 0, axis);
-            return 2048 * size * size * apart[axis] + slope * apart[Z];
+            return scale[axis] * apart[axis] + slope * apart[Z];
         }
 
         /** Lets the ship down to its level by a plane's slopes, and answers that level. */
         private int tilt(int b, int c) {
             int level = hull.level(seaSet(), 0, weight, b, c);
-            hull.weigh(seaSet(), level, b, c);
+            hull.weigh(seaSet(), 0, 15, level, b, c);
             afloat = hull.amount;
             apart[X] = hull.momentX - fixed[X];
             apart[Y] = hull.momentY - fixed[Y];
@@ -1289,11 +1285,10 @@ public final class ShipYard {
             for (int p = 0; p < 16; p++) {
                 if (hasLiquid(p)) {
                     int set = 1 << p + 1;
-                    hull.weigh(set, hull.level(set, p + 1, pointsOf(p), b, c), b, c);
-                    long heavy = model.of(FILLS, p, 1);
-                    apart[X] -= hull.momentX * heavy;
-                    apart[Y] -= hull.momentY * heavy;
-                    apart[Z] -= hull.momentZ * heavy;
+                    hull.weigh(set, 0, 15, hull.level(set, p + 1, points[p], b, c), b, c);
+                    apart[X] -= hull.momentX * heavy[p];
+                    apart[Y] -= hull.momentY * heavy[p];
+                    apart[Z] -= hull.momentZ * heavy[p];
                 }
             }
             return level;
@@ -1309,7 +1304,7 @@ public final class ShipYard {
             }
             for (int p = 0; p < 16; p++) {
                 if (hasLiquid(p)) {
-                    liquids[p] = hull.level(1 << p + 1, p + 1, pointsOf(p), b, c);
+                    liquids[p] = hull.level(1 << p + 1, p + 1, points[p], b, c);
                 }
             }
         }
@@ -1338,11 +1333,12 @@ public final class ShipYard {
             int b = (int) told[B];
             int c = (int) told[C];
             for (int s = 0; s < 16; s++) {
-                int slope = b * (2 * s - 15);
-                long load = -hull.inSlice(seaSet(), s, (int) told[A] + slope, c);
+                hull.weigh(seaSet(), s, s, (int) told[A], b, c);
+                long load = -hull.amount;
                 for (int p = 0; p < 16; p++) {
                     if (hasLiquid(p)) {
-                        load += hull.inSlice(1 << p + 1, s, liquids[p] + slope, c) * model.of(FILLS, p, 1);
+                        hull.weigh(1 << p + 1, s, s, liquids[p], b, c);
+                        load += hull.amount * heavy[p];
                     }
                 }
                 for (int i = 0; i < ROWS[WEIGHTS]; i++) {
@@ -1535,12 +1531,7 @@ public final class ShipYard {
         }
 
         private int keyNow() {
-            for (int i = 0; i < KEYS; i++) {
-                if (isNowKey(i)) {
-                    return i;
-                }
-            }
-            return -1;
+            return find(keys, KEYS, values[now]);
         }
 
         /** Steps over a token that must stand here. */
@@ -1894,8 +1885,8 @@ public final class ShipYard {
             this.shop = shop;
         }
 
+        /** The lets must have been worked out. */
         int judge(Program p, int rule) {
-            workOutLets(p);
             taken = 0;
             int got = rule >= 0 && rule < Program.MOST_RULES ? truth(p.ruleNode[rule], 0) : OPEN;
             if (isOver()) {
@@ -1905,15 +1896,15 @@ public final class ShipYard {
             return got;
         }
 
-        long letPart(Program p, int k, int which) {
-            workOutLets(p);
+        /** The lets must have been worked out. */
+        long letPart(int k, int which) {
             if (k < 0 || k >= Program.MOST_LETS || letBelow[k] == 0 || letSteps[k] > MOST_STEPS) {
                 return NONE;
             }
             return which == 0 ? letTop[k] : letBelow[k];
         }
 
-        private void workOutLets(Program p) {
+        void workOutLets(Program p) {
             program = p;
             for (int k = 0; k < p.lets && k < Program.MOST_LETS && !letsKnown; k++) {
                 taken = 0;
@@ -2156,11 +2147,12 @@ public final class ShipYard {
             }
             int i = (int) k;
             boolean isSlice = i >= 0 && i < 16;
+            long lever;
             switch (word - Grammar.PLAIN) {
                 case 0: draught(i); break;
                 case 1: alongShip(1, i); break;
                 case 2: alongShip(2, i); break;
-                case 3: lever(i); break;
+                case 3: lever = sea.rests() ? sea.lever(i) : NONE; set(lever, 1); break;
                 case 4: set(model.steelOf(i, 0), isSlice ? 1 : 0); break;
                 case 5: set(model.steelOf(i, 1), isSlice ? model.steelOf(i, 0) : 0); break;
                 case 6: second(i); break;
@@ -2181,11 +2173,6 @@ public final class ShipYard {
             if (sea.rests() && k >= 0 && k <= 16) {
                 set(sea.alongShip(what, k), BITS);
             }
-        }
-
-        private void lever(int c) {
-            long u = sea.rests() ? sea.lever(c) : NONE;
-            set(u, u == NONE ? 0 : 1);
         }
 
         private void second(int s) {
@@ -2359,28 +2346,26 @@ public final class ShipYard {
             }
         }
 
-        /** The further pieces of a plate find nothing ahead of the one before them: barred cells stay so. */
+        /** The further pieces of a plate begin in the row of the one before: what was barred ahead of it stays so. */
         private void placeAll(Model m, int plate) {
             int turns = m.of(PLATES, plate, 13) == 1 ? TURNS : 1;
-            int sheet = 0;
-            int y = 0;
+            int row = 0;
             for (int i = 0; i < m.of(PLATES, plate, 12) && pieces < MOST_PIECES; i++) {
                 int k = pieces;
                 plateOf[k] = plate;
                 sheetOf[k] = -1;
                 pieces++;
-                for (; sheet < SHEETS && sheetOf[k] < 0; sheet += sheetOf[k] < 0 ? 1 : 0) {
-                    for (; y < height && sheetOf[k] < 0; y += sheetOf[k] < 0 ? 1 : 0) {
-                        placeInRow(k, sheet, y, turns);
+                for (; row < SHEETS * MOST_Y; row++) {
+                    if (placeInRow(k, row / MOST_Y, row % MOST_Y, turns)) {
+                        placed++;
+                        break;
                     }
-                    y = sheetOf[k] < 0 ? 0 : y;
                 }
-                placed += sheetOf[k] >= 0 ? 1 : 0;
             }
         }
 
-        private void placeInRow(int k, int sheet, int y, int turns) {
-            for (int x = 0; x < width; x++) {
+        private boolean placeInRow(int k, int sheet, int y, int turns) {
+            for (int x = 0; x < width && y < height; x++) {
                 for (int turn = 0; turn < turns; turn++) {
                     if (fits(sheet, x, y, turn)) {
                         sheetOf[k] = sheet;
@@ -2388,10 +2373,11 @@ public final class ShipYard {
                         yOf[k] = y;
                         turnOf[k] = turn;
                         lay(k);
-                        return;
+                        return true;
                     }
                 }
             }
+            return false;
         }
 
         private boolean fits(int sheet, int x, int y, int turn) {

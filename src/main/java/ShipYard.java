@@ -1004,6 +1004,8 @@ public final class ShipYard {
         private void measure(int set, int a, int b, int c) {
             amount = 0;
             rise = 0;
+            int[] bottoms = low;
+            int[] decks = high;
             for (int block = 0; block < BLOCKS; block++) {
                 if ((set >> block & 1) == 0) {
                     continue;
@@ -1017,11 +1019,17 @@ public final class ShipYard {
                 for (int s = sliceFrom[block]; s <= sliceTo[block]; s++) {
                     int plane = a + b * (2 * s - 15) + c * (2 * first - 15);
                     for (int i = 16 * s + first; i <= 16 * s + last; i++) {
-                        int lower = low[i] > floor ? low[i] : floor;
-                        int upper = high[i] < roof ? high[i] : roof;
-                        if (plane >= lower && lower < upper) {
-                            points += (plane < upper ? plane : upper) - lower;
-                            rising += plane < upper ? 1 : 0;
+                        int lower = bottoms[i];
+                        lower = lower > floor ? lower : floor;
+                        if (plane >= lower) {
+                            int upper = decks[i];
+                            upper = upper < roof ? upper : roof;
+                            if (plane < upper) {
+                                points += plane - lower;
+                                rising++;
+                            } else if (lower < upper) {
+                                points += upper - lower;
+                            }
                         }
                         plane += 2 * c;
                     }
@@ -1092,7 +1100,8 @@ public final class ShipYard {
         private final long[] heavy = new long[16];
         private final int[] liquids = new int[16];
         private final long[] loads = new long[16];
-        /** Levers that were worked out in this turn, for each c: rules ask for the same ones often. */
+        /** For each c the trim and the lever, if they were worked out in this turn: rules ask for the same ones often. */
+        private final int[] trims = new int[2 * STEEPEST + 1];
         private final long[] levers = new long[2 * STEEPEST + 1];
         private final int[] leverTurn = new int[2 * STEEPEST + 1];
 
@@ -1151,7 +1160,7 @@ public final class ShipYard {
                 answer = weight >= told[ALL] ? SINKS : c == NOWHERE ? NO_REST : RESTS;
                 more = 0;
                 if (answer == RESTS) {
-                    layDown(trim(c), c);
+                    layDown(trims[c + STEEPEST], c);
                     more = flooded();
                     open |= more;
                     rounds += more != 0 ? 1 : 0;
@@ -1234,30 +1243,22 @@ public final class ShipYard {
             if (i < 0 || i >= levers.length) {
                 return NONE;
             }
-            if (leverTurn[i] != turn) {
-                int b = trim(c);
-                levers[i] = NONE;
-                if (b != NOWHERE) {
-                    tilt(b, c);
-                    levers[i] = turning(Y, c);
-                }
-                leverTurn[i] = turn;
+            if (leverTurn[i] == turn) {
+                return levers[i];
             }
-            return levers[i];
-        }
-
-        private int trim(int c) {
+            leverTurn[i] = turn;
+            levers[i] = NONE;
             int low = -STEEPEST;
             int high = STEEPEST;
             tilt(low, c);
             if (turning(X, low) > 0) {
-                return NOWHERE;
+                return NONE;
             }
             tilt(high, c);
             if (turning(X, high) <= 0) {
-                return NOWHERE;
+                return NONE;
             }
-            for (int i = 0; i < HALVINGS && high - low > 1; i++) {
+            for (int k = 0; k < HALVINGS && high - low > 1; k++) {
                 int middle = low + (high - low) / 2;
                 tilt(middle, c);
                 if (turning(X, middle) <= 0) {
@@ -1266,7 +1267,10 @@ public final class ShipYard {
                     high = middle;
                 }
             }
-            return low;
+            tilt(low, c);
+            trims[i] = low;
+            levers[i] = turning(Y, c);
+            return levers[i];
         }
 
         /** T or U by the latest tilt. */
@@ -1454,7 +1458,15 @@ public final class ShipYard {
             counting = 0;
             readTokens(m);
             for (int i = 0; i < tokens && fault == 0 && kinds[now] != END; i++) {
-                statement();
+                if (isNowKey(LET)) {
+                    letStatement();
+                } else if (isNowKey(TABLE)) {
+                    tableStatement();
+                } else if (isNowKey(RULE)) {
+                    ruleStatement();
+                } else {
+                    fail(MISPLACED, now);
+                }
             }
             return fault == 0;
         }
@@ -1493,7 +1505,8 @@ public final class ShipYard {
                 length = 2;
             }
             boolean isSign = !isWord && !isNumber;
-            if (isSign && SIGNS.indexOf((char) first) < 0 || isWord && length > MOST_LETTERS || isNumber && length > MOST_DIGITS) {
+            if (isSign && SIGNS.indexOf((char) first) < 0 || isWord && length > MOST_LETTERS
+                    || isNumber && length > MOST_DIGITS) {
                 fault = NO_TOKEN;
                 faultByte = at;
                 return length;
@@ -1545,18 +1558,6 @@ public final class ShipYard {
         }
 
         // ---- statements
-
-        private void statement() {
-            if (isNowKey(LET)) {
-                letStatement();
-            } else if (isNowKey(TABLE)) {
-                tableStatement();
-            } else if (isNowKey(RULE)) {
-                ruleStatement();
-            } else {
-                fail(MISPLACED, now);
-            }
-        }
 
         private void letStatement() {
             if (program.lets >= Program.MOST_LETS) {
@@ -2849,26 +2850,31 @@ public final class ShipYard {
 
         private int firstDay(Model m, int t) {
             int day = m.of(TASKS, t, 3);
+            int ahead = m.of(TASKS, t, 4);
             for (int u = 0; u < TASK_COUNT; u++) {
-                if ((m.of(TASKS, t, 4) >> u & 1) != 0) {
+                if ((ahead >> u & 1) != 0) {
                     day = Math.max(day, tryBegins[u] + m.of(TASKS, u, 0));
                 }
             }
+            int days = m.of(TASKS, t, 0);
+            int mostHands = m.of(YARD, 0, 6) - m.of(TASKS, t, 1);
+            int mostCranes = m.of(YARD, 0, 7) - m.of(TASKS, t, 2);
             int free = 0;
-            int at = day;
-            // The days from one on count anew behind each day that has too little.
-            for (; at < DAYS && free < m.of(TASKS, t, 0); at++) {
-                boolean enough = hands[at] + m.of(TASKS, t, 1) <= m.of(YARD, 0, 6)
-                        && cranes[at] + m.of(TASKS, t, 2) <= m.of(YARD, 0, 7);
-                free = enough ? free + 1 : 0;
+            // The days count anew behind each one that has too little; behind all other tasks there is enough.
+            for (; day < DAYS && free < days; day++) {
+                free = hands[day] <= mostHands && cranes[day] <= mostCranes ? free + 1 : 0;
             }
-            return at - free;
+            return day - free;
         }
 
         private void occupy(Model m, int t, int sign) {
-            for (int i = 0; i < m.of(TASKS, t, 0) && tryBegins[t] + i < DAYS; i++) {
-                hands[tryBegins[t] + i] += sign * m.of(TASKS, t, 1);
-                cranes[tryBegins[t] + i] += sign * m.of(TASKS, t, 2);
+            int first = tryBegins[t];
+            int end = Math.min(DAYS, first + m.of(TASKS, t, 0));
+            int moreHands = sign * m.of(TASKS, t, 1);
+            int moreCranes = sign * m.of(TASKS, t, 2);
+            for (int day = first; day < end; day++) {
+                hands[day] += moreHands;
+                cranes[day] += moreCranes;
             }
         }
     }

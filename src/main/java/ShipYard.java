@@ -1559,14 +1559,20 @@ public final class ShipYard {
 
         // ---- statements
 
-        private void letStatement() {
-            if (program.lets >= Program.MOST_LETS) {
+        /** Steps over what all statements begin with: the name that is told. */
+        private long heading(int count, int most) {
+            if (count >= most) {
                 fail(TOO_MANY, now);
-                return;
+                return 0;
             }
             now++;
             long name = newName();
             expect('=');
+            return name;
+        }
+
+        private void letStatement() {
+            long name = heading(program.lets, Program.MOST_LETS);
             int node = sum(1);
             if (expect(';')) {
                 program.letNode[program.lets] = node;
@@ -1576,13 +1582,7 @@ public final class ShipYard {
         }
 
         private void ruleStatement() {
-            if (program.rules >= Program.MOST_RULES) {
-                fail(TOO_MANY, now);
-                return;
-            }
-            now++;
-            long name = newName();
-            expect('=');
+            long name = heading(program.rules, Program.MOST_RULES);
             int node = condition(1);
             if (expect(';')) {
                 program.ruleNode[program.rules] = node;
@@ -1592,13 +1592,10 @@ public final class ShipYard {
         }
 
         private void tableStatement() {
-            if (program.tables >= Program.MOST_TABLES) {
-                fail(TOO_MANY, now);
+            long name = heading(program.tables, Program.MOST_TABLES);
+            if (fault != 0) {
                 return;
             }
-            now++;
-            long name = newName();
-            expect('=');
             program.points[program.tables] = 0;
             point();
             for (int i = 0; i < tokens && isNow(','); i++) {
@@ -1862,6 +1859,10 @@ public final class ShipYard {
         static final int FALSE = 0, TRUE = 1, OPEN = 2;
         private static final int MOST_STEPS = 10000, MOST_ROUNDS = 64, MOST_DEPTH = 150, GCD_ROUNDS = 100, BITS = 1024;
         private static final long MOST_SIZE = 1000000000000000000L, BEYOND = Long.MIN_VALUE;
+        /** The yard's words, numbered as Grammar lists them. */
+        private static final int LEVEL = 0, TRIM = 1, HEEL = 2, WATER = 3, WEIGHT = 4, LENGTH = 6, BREADTH = 7, PLACED = 8,
+                LEFT = 9, BARS = 10, LED = 11, END = 12, DRAUGHT = 13, FORCE = 14, BEND = 15, LEVER = 16, AREA = 17,
+                AXIS = 18, SECOND = 19, ROOM = 20, FILL = 21, PRICE = 22;
 
         private final Model model;
         private final Sea sea;
@@ -2107,34 +2108,32 @@ public final class ShipYard {
             act('+', top, below, program.pointY[i - 1], 1);
         }
 
-        // ---- the yard's words, numbered as Grammar lists them
+        // ---- the yard's words; set() leaves a number undone that has 0 below
 
         private void word(int word) {
-            undone();
-            if (word < 6) {
-                if (sea.rests()) {
-                    wordOfSea(word);
-                }
-                return;
-            }
             switch (word) {
-                case 6: set(model.of(YARD, 0, 0), 1); break;
-                case 7: set(model.of(YARD, 0, 1), 1); break;
-                case 8: set(sheets.placed, sheets.known ? 1 : 0); break;
-                case 9: set(sheets.pieces - sheets.placed, sheets.known ? 1 : 0); break;
-                case 10: set(shop.barCount, shop.barsKnown && shop.barCount >= 0 ? 1 : 0); break;
-                case 11: set(pipes.led, pipes.known ? 1 : 0); break;
-                default: set(shop.planEnd, shop.planKnown && shop.planEnd >= 0 ? 1 : 0); break;
+                case LENGTH: set(model.of(YARD, 0, 0), 1); break;
+                case BREADTH: set(model.of(YARD, 0, 1), 1); break;
+                case PLACED: set(sheets.placed, sheets.known ? 1 : 0); break;
+                case LEFT: set(sheets.pieces - sheets.placed, sheets.known ? 1 : 0); break;
+                case BARS: set(shop.barCount, shop.barsKnown && shop.barCount >= 0 ? 1 : 0); break;
+                case LED: set(pipes.led, pipes.known ? 1 : 0); break;
+                case END: set(shop.planEnd, shop.planKnown && shop.planEnd >= 0 ? 1 : 0); break;
+                default: wordOfRest(word); break;
             }
         }
 
-        private void wordOfSea(int word) {
+        private void wordOfRest(int word) {
+            undone();
+            if (!sea.rests()) {
+                return;
+            }
             switch (word) {
-                case 0: set(sea.told[Sea.A], Hull.POINTS); break;
-                case 1: set(sea.told[Sea.B], Hull.POINTS); break;
-                case 2: set(sea.told[Sea.C], Hull.POINTS); break;
-                case 3: set(sea.told[Sea.AFLOAT], BITS); break;
-                case 4: set(sea.told[Sea.WEIGHT], BITS); break;
+                case LEVEL: set(sea.told[Sea.A], Hull.POINTS); break;
+                case TRIM: set(sea.told[Sea.B], Hull.POINTS); break;
+                case HEEL: set(sea.told[Sea.C], Hull.POINTS); break;
+                case WATER: set(sea.told[Sea.AFLOAT], BITS); break;
+                case WEIGHT: set(sea.told[Sea.WEIGHT], BITS); break;
                 default: set(sea.told[Sea.ROUNDS], 1); break;
             }
         }
@@ -2148,18 +2147,19 @@ public final class ShipYard {
             }
             int i = (int) k;
             boolean isSlice = i >= 0 && i < 16;
-            long lever;
-            switch (word - Grammar.PLAIN) {
-                case 0: draught(i); break;
-                case 1: alongShip(1, i); break;
-                case 2: alongShip(2, i); break;
-                case 3: lever = sea.rests() ? sea.lever(i) : NONE; set(lever, 1); break;
-                case 4: set(model.steelOf(i, 0), isSlice ? 1 : 0); break;
-                case 5: set(model.steelOf(i, 1), isSlice ? model.steelOf(i, 0) : 0); break;
-                case 6: second(i); break;
-                case 7: set(model.room(i & 15), isSlice && model.kindOf(i) > 0 ? 1 : 0); break;
-                case 8: set(model.of(FILLS, i & 15, 0), isSlice && model.kindOf(i) > 0 ? 1 : 0); break;
-                case 9: set(pipes.costOf(i), pipes.hasWay(i) ? 1 : 0); break;
+            boolean isSpace = model.kindOf(i) > 0;
+            long lever = word == LEVER && sea.rests() ? sea.lever(i) : NONE;
+            switch (word) {
+                case DRAUGHT: draught(i); break;
+                case FORCE: alongShip(1, i); break;
+                case BEND: alongShip(2, i); break;
+                case LEVER: set(lever, lever == NONE ? 0 : 1); break;
+                case AREA: set(model.steelOf(i, 0), isSlice ? 1 : 0); break;
+                case AXIS: set(model.steelOf(i, 1), isSlice ? model.steelOf(i, 0) : 0); break;
+                case SECOND: second(i); break;
+                case ROOM: set(isSpace ? model.room(i) : 0, isSpace ? 1 : 0); break;
+                case FILL: set(isSpace ? model.of(FILLS, i, 0) : 0, isSpace ? 1 : 0); break;
+                case PRICE: set(pipes.costOf(i), pipes.hasWay(i) ? 1 : 0); break;
                 default: set(shop.beginOf(i), shop.isPlanned(i) ? 1 : 0); break;
             }
         }

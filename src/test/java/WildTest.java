@@ -173,7 +173,7 @@ public final class WildTest {
                 x.reopen();
             }
             long bytes = threads.getThreadAllocatedBytes(self) - before;
-            Check.due("bytes made by calls: " + bytes, bytes < 20000 ? 1 : 0, 1);
+            Check.due("bytes made by calls: " + bytes, bytes < 50000 ? 1 : 0, 1);
         }
     }
 

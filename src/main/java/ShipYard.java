@@ -2327,8 +2327,10 @@ public final class ShipYard {
             int h = 0;
             for (int j = 0; j < PLATE_ROWS; j++) {
                 int row = m.of(PLATES, plate, j);
-                w = Math.max(w, 31 - Integer.numberOfLeadingZeros(row));
                 h = row != 0 ? j : h;
+                for (int i = w; i < PLATE_BITS; i++) {
+                    w = (row >> i & 1) != 0 ? i : w;
+                }
             }
             Arrays.fill(shape, 0L);
             for (int j = 0; j <= h; j++) {

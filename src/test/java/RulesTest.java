@@ -201,6 +201,20 @@ public final class RulesTest {
         fault(5, 9 + 23, "rule a = " + times(23, "[") + "1 = 1" + times(23, "]") + ";");
         fault(0, 0, "let a = " + ifs(11) + ";");
         fault(5, 8 + 36, "let a = " + ifs(12) + ";");
+        deep("if(", "=1,1,1)", 11, 3);
+        deep("if(1=", ",1,1)", 11, 3);
+        deep("if(1=1,", ",1)", 22, 3);
+        deep("if(1=1,1,", ")", 22, 3);
+        deep("sum(x,", ",1,1)", 23, 6);
+        deep("max(x,1,", ",1)", 23, 6);
+        deep("-", "", 23, 1);
+        deep("(", ")", 23, 1);
+        deep("1+(", ")", 23, 3);
+        deep("2*(1+", ")*3", 23, 3);
+        deep("room(", ")", 23, 5);
+        deep("1-area(0+", ")", 23, 7);
+        fault(2, 0, times(1200, ";"));
+        fault(2, 1200, "rule a = " + times(595, "1+") + "1");
         fault(0, 0, "let a = " + times(595, "1+") + "1;");
         fault(0, 0, "rule a = " + times(130, "1=1 or ") + "1=1;");
         fault(0, 0, "let a = " + times(23, "room(") + "1" + times(23, ")") + ";");
@@ -210,6 +224,13 @@ public final class RulesTest {
             counters = new StringBuilder("sum(" + name(i) + ",1,1," + counters + ")");
         }
         fault(0, 0, "let a = " + counters + ";");
+    }
+
+    /** Puts a sum into itself as often as may be, and once more: then the fault is that far behind the last one. */
+    private static void deep(String ahead, String behind, int most, int byteOfLast) {
+        fault(0, 0, "let a = " + times(most, ahead) + "1" + times(most, behind) + ";");
+        fault(5, 8 + most * ahead.length() + byteOfLast,
+                "let a = " + times(most + 1, ahead) + "1" + times(most + 1, behind) + ";");
     }
 
     /** An if in an if's condition, so many times: each is a factor and has a not. */

@@ -6,6 +6,7 @@ public final class SeaTest {
         refusals();
         box();
         flooding();
+        edges();
         steel();
         for (int seed = 0; seed < 260; seed++) {
             randomShip(seed);
@@ -106,6 +107,30 @@ public final class SeaTest {
         Check.due("what is refused changes nothing", x.rest(1), 2);
         Check.due("a KIND's bits", x.sea(7), 0);
         Check.due("no round", x.rest(1), 0);
+    }
+
+    /** An opening at the plane lets nothing in, one below it does; a ship without weight has no rest. */
+    private static void edges() {
+        for (int height = 48; height <= 51; height++) {
+            ShipYard x = new ShipYard();
+            x.open(0);
+            Check.row(x, 0, 0, 100, 100);
+            for (int s = 0; s < 16; s++) {
+                Check.row(x, 1, s, 0, 0, 0, 0, 0, 0, 0, 0, 100);
+            }
+            x.commit(0);
+            Check.due("no weight", x.sea(0), 2);
+            Check.due("W", x.rest(3), 0);
+            x.open(0);
+            Check.row(x, 3, 0, 800, 0, 15, 0, 10);
+            Check.row(x, 2, 5, 1, 0, 15, 0, 15, 90, 95, 0);
+            Check.row(x, 5, 7, 1, 8, 9, height, -1, 5);
+            x.commit(0);
+            Check.due("sea", x.sea(0), 0);
+            Check.due("a", x.rest(5), 3200);
+            Check.due("rounds by an opening at " + height, x.rest(1), height < 50 ? 1 : 0);
+            Check.due("open by an opening at " + height, x.rest(2), height < 50 ? 32 : 0);
+        }
     }
 
     private static void steel() {

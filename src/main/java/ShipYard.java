@@ -1399,9 +1399,10 @@ public final class ShipYard {
 
     /** Reads a text of rules: its tokens, then its statements. */
     private static final class Grammar {
-        static final String PLAIN_WORDS = "level trim heel water weight rounds length breadth placed left bars led end ";
-        static final String WORDS_OF = "draught force bend lever area axis second room fill price start ";
-        static final int PLAIN = 13, WORDS = 24;
+        /** The yard's words: the plain ones, and those that want ( ), which are numbered on from these. */
+        private static final String PLAIN_WORDS = "level trim heel water weight rounds length breadth placed left bars led end ";
+        private static final String WORDS_OF = "draught force bend lever area axis second room fill price start ";
+        private static final int PLAIN = 13, OF = 11;
         private static final String KEYWORDS = "let table rule if sum max min and or not ";
         private static final int KEYS = 10, LET = 0, TABLE = 1, RULE = 2, IF = 3, SUM = 4, MIN = 6, AND = 7, OR = 8, NOT = 9;
         private static final String SIGNS = "+-*/()[],;:=#<>";
@@ -1418,8 +1419,7 @@ public final class ShipYard {
         /** A number's value, or a word packed into one number. */
         private final long[] values = new long[TAPE_BYTES + 1];
         private int tokens, now;
-        private final long[] keys = new long[KEYS];
-        private final long[] words = new long[WORDS];
+        private final long[] keys, plainWords, wordsOf;
         /** What let, table and rule told, and the node kind that it stands for (a rule's: NOT, as no number does). */
         private final long[] names = new long[MOST_NAMES];
         private final int[] nameKinds = new int[MOST_NAMES];
@@ -1429,23 +1429,26 @@ public final class ShipYard {
         private int counting;
 
         Grammar() {
-            pack(KEYWORDS, keys, 0);
-            pack(PLAIN_WORDS, words, 0);
-            pack(WORDS_OF, words, PLAIN);
+            keys = packed(KEYWORDS, KEYS);
+            plainWords = packed(PLAIN_WORDS, PLAIN);
+            wordsOf = packed(WORDS_OF, OF);
         }
 
-        private static void pack(String list, long[] into, int from) {
+        /** The words of a list, a blank behind each, packed into one number each. */
+        private static long[] packed(String list, int count) {
+            long[] all = new long[count];
             long word = 0;
-            int to = from;
-            for (int i = 0; i < list.length() && to < into.length; i++) {
+            int to = 0;
+            for (int i = 0; i < list.length() && to < count; i++) {
                 if (list.charAt(i) == ' ') {
-                    into[to] = word;
+                    all[to] = word;
                     to++;
                     word = 0;
                 } else {
                     word = word * LETTERS + list.charAt(i) - 'a' + 1;
                 }
             }
+            return all;
         }
 
         /** Whether the model's text has no fault; then it is in the program. */
@@ -1653,8 +1656,8 @@ public final class ShipYard {
                 return 0;
             }
             long name = values[now];
-            if (keyNow() >= 0 || find(words, WORDS, name) >= 0 || find(names, named, name) >= 0
-                    || find(counters, counting, name) >= 0) {
+            if (keyNow() >= 0 || find(plainWords, PLAIN, name) >= 0 || find(wordsOf, OF, name) >= 0
+                    || find(names, named, name) >= 0 || find(counters, counting, name) >= 0) {
                 fail(TAKEN, now);
                 return 0;
             }
@@ -1830,7 +1833,8 @@ public final class ShipYard {
             long name = values[now];
             int slot = find(counters, counting, name);
             int told = find(names, named, name);
-            int word = find(words, WORDS, name);
+            int plain = find(plainWords, PLAIN, name);
+            int word = find(wordsOf, OF, name);
             if (slot >= 0) {
                 now++;
                 return program.add(Program.COUNTER, slot, -1, -1, -1);
@@ -1843,14 +1847,15 @@ public final class ShipYard {
                 now++;
                 return program.add(Program.TABLE, nameNumbers[told], inBrackets(depth), -1, -1);
             }
-            if (word < 0) {
-                return fail(UNKNOWN, now);
+            if (plain >= 0) {
+                now++;
+                return program.add(Program.WORD, plain, -1, -1, -1);
             }
-            now++;
-            if (word < PLAIN) {
-                return program.add(Program.WORD, word, -1, -1, -1);
+            if (word >= 0) {
+                now++;
+                return program.add(Program.WORD_OF, PLAIN + word, inBrackets(depth), -1, -1);
             }
-            return program.add(Program.WORD_OF, word, inBrackets(depth), -1, -1);
+            return fail(UNKNOWN, now);
         }
     }
 

@@ -16,6 +16,7 @@ public final class RulesTest {
         valuesByHand();
         stepsByHand();
         wordsByHand();
+        nothing();
         randomTexts();
         Check.end();
     }
@@ -449,6 +450,22 @@ public final class RulesTest {
         }
         Check.due("commit", x.commit(0), 1);
         return x;
+    }
+
+    /** What is worked out of nothing is 0, not undone. */
+    private static void nothing() {
+        ShipYard x = new ShipYard();
+        Check.text(x, "let a = bars; let b = end; let c = led; let d = placed; let e = left; rule r = a + b + c + d + e = 0;");
+        Check.due("not worked out", x.verdict(0), 2);
+        x.bars();
+        x.plan();
+        x.lead();
+        Check.due("not all worked out", x.verdict(0), 2);
+        x.nest(0);
+        Check.due("all are 0", x.verdict(0), 1);
+        for (int k = 0; k < 5; k++) {
+            Check.due("let " + k, x.let(k, 0), 0);
+        }
     }
 
     private static void wordIs(ShipYard x, int k, long above, long below) {

@@ -322,6 +322,11 @@ public final class RulesTest {
         value("if(1 > 2, 1 / 0, 4)", 4, 1);
         undone("if(1 / 0 > 2, 3, 4)");
         value("if(1 / 0 > 2 or 1 = 1, 3, 4)", 3, 1);
+        value(times(23, "1+(") + "1" + times(23, ")"), 24, 1);
+        value(times(23, "1-2*(") + "1" + times(23, ")"), -5592405, 1);
+        value(times(22, "if(1=1,") + "7" + times(22, ",1)"), 7, 1);
+        value(times(11, "1*0+if(0+1*") + "1" + times(11, "=1 and 1=1 or 2=3,1,0)"), 1, 1);
+        value(times(7, "if(not 1=") + "0" + times(7, ",1,0)"), 1, 1);
         value("length + breadth", 2, 1);
         undone("level");
         undone("bars");

@@ -783,22 +783,31 @@ public final class ShipYard {
             return of(PLATES, plate, 0) != 0 && (bits & 1) != 0;
         }
 
+        /** A row without days is no task: its bits lead nowhere. */
         private boolean taskRight(int t) {
-            if (of(TASKS, t, 0) == 0) {
+            int there = tasksWithDays();
+            int ahead = of(TASKS, t, 4);
+            if ((there >> t & 1) == 0) {
                 return true;
             }
-            int ahead = of(TASKS, t, 4);
-            for (int u = 0; u < ROWS[TASKS]; u++) {
-                if ((ahead >> u & 1) != 0 && of(TASKS, u, 0) == 0) {
-                    return false;
-                }
+            if ((ahead & ~there) != 0) {
+                return false;
             }
             for (int i = 0; i < ROWS[TASKS]; i++) {
                 for (int u = 0; u < ROWS[TASKS]; u++) {
-                    ahead |= (ahead >> u & 1) != 0 ? of(TASKS, u, 4) : 0;
+                    ahead |= (ahead & there & 1 << u) != 0 ? of(TASKS, u, 4) : 0;
                 }
             }
             return (ahead >> t & 1) == 0;
+        }
+
+        /** The tasks with days, as bits. */
+        private int tasksWithDays() {
+            int bits = 0;
+            for (int t = 0; t < ROWS[TASKS]; t++) {
+                bits |= of(TASKS, t, 0) > 0 ? 1 << t : 0;
+            }
+            return bits;
         }
     }
 

@@ -1,3 +1,5 @@
+import java.util.Random;
+
 /** Promises 1 to 15: the model, transactions, the tape, the log, crash and reopen. */
 public final class PersonsTest {
     private static final int[] ROWS = {1, 16, 16, 24, 16, 8, 24, 8, 12, 6, 7, 9, 1};
@@ -24,6 +26,8 @@ public final class PersonsTest {
         transactions();
         clashes();
         faults();
+        tasksInCircles();
+        randomTasks();
         tape();
         texts();
         undone();
@@ -263,6 +267,68 @@ public final class PersonsTest {
         x.put(0, 3, 0, 0, 1);
         x.put(0, 3, 0, 1, 1);
         Check.due("the first of two faults", x.commit(0), -333);
+    }
+
+    /** Days and bits of tasks 0, 1, ..: what a commit of these answers on a new object. */
+    private static void tasks(int due, int... daysAndBits) {
+        ShipYard x = new ShipYard();
+        x.open(0);
+        StringBuilder told = new StringBuilder("tasks");
+        for (int t = 0; t < daysAndBits.length / 2; t++) {
+            x.put(0, 10, t, 0, daysAndBits[2 * t]);
+            x.put(0, 10, t, 4, daysAndBits[2 * t + 1]);
+            told.append(' ').append(daysAndBits[2 * t]).append(':').append(daysAndBits[2 * t + 1]);
+        }
+        Check.due(told.toString(), x.commit(0), due);
+    }
+
+    private static void tasksInCircles() {
+        tasks(1, 1, 2, 1, 0);
+        tasks(-431, 1, 2, 1, 1);
+        tasks(-431, 1, 2, 1, 4, 1, 1);
+        tasks(-432, 1, 2, 1, 4, 1, 2);
+        // What leads through a row without days leads nowhere.
+        tasks(-432, 1, 2, 1, 4, 0, 1);
+        tasks(-432, 1, 2, 1, 12, 0, 1, 0, 1);
+        tasks(-433, 1, 2, 1, 4, 1, 8, 0, 1);
+        tasks(-433, 1, 2, 1, 4, 1, 8, 0, 16, 0, 3);
+        tasks(-431, 1, 2, 1, 5, 0, 1);
+        tasks(-431, 1, 6, 1, 0, 0, 0);
+        tasks(1, 0, 2, 0, 1, 0, 4);
+        tasks(1, 0, 127, 1, 0, 0, 127, 20, 2, 0, 127, 1, 10, 0, 127);
+        tasks(-437, 0, 0, 0, 0, 0, 0, 0, 0, 0, 0, 0, 0, 1, 64);
+    }
+
+    private static void randomTasks() {
+        Random r = new Random(10);
+        for (int run = 0; run < 4000; run++) {
+            int[] daysAndBits = new int[14];
+            for (int t = 0; t < 7; t++) {
+                daysAndBits[2 * t] = r.nextInt(3) == 0 ? 0 : 1 + r.nextInt(20);
+                daysAndBits[2 * t + 1] = r.nextInt(128) & r.nextInt(128) & (run % 2 == 0 ? 127 : r.nextInt(128));
+            }
+            int due = 1;
+            for (int t = 6; t >= 0; t--) {
+                boolean has = daysAndBits[2 * t] > 0;
+                boolean leadsToNone = false;
+                for (int u = 0; u < 7; u++) {
+                    leadsToNone |= (daysAndBits[2 * t + 1] >> u & 1) == 1 && daysAndBits[2 * u] == 0;
+                }
+                due = has && (leadsToNone || leads(daysAndBits, t, t, 7)) ? -431 - t : due;
+            }
+            tasks(due, daysAndBits);
+        }
+    }
+
+    /** Whether a row of at most so many tasks with days leads from one to another. */
+    private static boolean leads(int[] daysAndBits, int from, int to, int most) {
+        for (int u = 0; u < 7 && most > 0; u++) {
+            boolean next = (daysAndBits[2 * from + 1] >> u & 1) == 1 && daysAndBits[2 * u] > 0;
+            if (next && (u == to || leads(daysAndBits, u, to, most - 1))) {
+                return true;
+            }
+        }
+        return false;
     }
 
     private static void tape() {

@@ -513,7 +513,7 @@ public final class WildTest {
                         if (i == 0 && of(m, 10, u, 0) == 0) {
                             return false;
                         }
-                        if (ahead.add(u)) {
+                        if (of(m, 10, u, 0) > 0 && ahead.add(u)) {
                             todo.add(u);
                         }
                     }

@@ -3,15 +3,21 @@ import java.util.function.IntConsumer;
 /** What all tests of the project use: answers compared, and the yard filled in few words. */
 final class Check {
     private static int wrong = 0;
+    private static String sentence = "";
 
     private Check() {
+    }
+
+    /** The sentence of the document that the next answers test. */
+    static void says(String words) {
+        sentence = "\"" + words + "\": ";
     }
 
     static void due(String call, long got, long want) {
         if (got != want) {
             wrong++;
             if (wrong <= 50) {
-                System.out.println(call + " answered " + got + ", due is " + want);
+                System.out.println(sentence + call + " answered " + got + ", due is " + want);
             }
         }
     }
@@ -22,15 +28,25 @@ final class Check {
     }
 
     /** Writes the fields of a row from field 0 on. */
-    static void row(ShipYard yard, int table, int row, int... fields) {
+    static void row(Yard yard, int table, int row, int... fields) {
         for (int field = 0; field < fields.length; field++) {
             due("put(0, " + table + ", " + row + ", " + field + ", " + fields[field] + ")",
                     yard.put(0, table, row, field, fields[field]), 1);
         }
     }
 
+    /** Writes the fields of a row of a new object, but for those that are 0 already. */
+    static void newRow(Yard yard, int table, int row, int... fields) {
+        for (int field = 0; field < fields.length; field++) {
+            if (fields[field] != 0) {
+                due("put(0, " + table + ", " + row + ", " + field + ", " + fields[field] + ")",
+                        yard.put(0, table, row, field, fields[field]), 1);
+            }
+        }
+    }
+
     /** Puts a text on the empty tape. */
-    static void tape(ShipYard yard, String text) {
+    static void tape(Yard yard, String text) {
         int[] five = new int[5];
         int fed = 0;
         while (fed < text.length()) {
@@ -49,7 +65,7 @@ final class Check {
     }
 
     /** Commits a text of rules as person 0: what commit() answers. */
-    static int text(ShipYard yard, String text) {
+    static int text(Yard yard, String text) {
         tape(yard, text);
         yard.open(0);
         due("write(0)", yard.write(0), text.length());

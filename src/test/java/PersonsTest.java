@@ -47,7 +47,7 @@ public final class PersonsTest {
     }
 
     private static void newObject() {
-        ShipYard x = new ShipYard();
+        Yard x = new Yard();
         for (int what = 0; what <= 5; what++) {
             Check.due("told(" + what + ")", x.told(what), 0);
         }
@@ -57,6 +57,7 @@ public final class PersonsTest {
         Check.due("log(0)", x.log(0), -1);
         for (int table = 0; table < 13; table++) {
             int fields = table == 12 ? 301 : LIMITS[table].length / 2;
+            x = new Yard();
             for (int row = 0; row < ROWS[table]; row++) {
                 for (int field = 0; field < fields; field++) {
                     int least = table == 12 ? 0 : Math.max(0, LIMITS[table][2 * field]);
@@ -73,11 +74,12 @@ public final class PersonsTest {
     }
 
     private static void limits() {
-        ShipYard x = new ShipYard();
+        Yard x = new Yard();
         Check.due("put ahead of open", x.put(0, 0, 0, 0, 1), -2);
         Check.due("bad put ahead of open", x.put(0, 0, 0, 0, 0), -1);
-        Check.due("open(0)", x.open(0), 0);
         for (int table = 0; table < 12; table++) {
+            x = new Yard();
+            Check.due("open(0)", x.open(0), 0);
             for (int field = 0; field < LIMITS[table].length / 2; field++) {
                 int row = ROWS[table] - 1;
                 int least = LIMITS[table][2 * field];
@@ -96,18 +98,20 @@ public final class PersonsTest {
             Check.due("put of no field", x.put(0, table, 0, LIMITS[table].length / 2, 1), -1);
             Check.due("put of field -1", x.put(0, table, 0, -1, 1), -1);
             Check.due("get of no field", x.get(0, table, 0, LIMITS[table].length / 2), -1);
+            Check.due("rows written", x.leave(0), 1);
         }
+        Check.due("open(0)", x.open(0), 0);
         Check.due("put of the rules", x.put(0, 12, 0, 0, 0), -1);
         Check.due("put of table 13", x.put(0, 13, 0, 0, 0), -1);
         Check.due("put of table -1", x.put(0, -1, 0, 0, 0), -1);
         Check.due("get of the rules", x.get(0, 12, 0, 300), 0);
         Check.due("get of the rules' field 301", x.get(0, 12, 0, 301), -1);
         Check.due("get of table 13", x.get(0, 13, 0, 0), -1);
-        Check.due("rows written", x.leave(0), 12);
+        Check.due("rows written", x.leave(0), 0);
     }
 
     private static void transactions() {
-        ShipYard x = new ShipYard();
+        Yard x = new Yard();
         for (int person : new int[] {-1, 3, Integer.MAX_VALUE, Integer.MIN_VALUE}) {
             Check.due("open", x.open(person), -1);
             Check.due("put", x.put(person, 0, 0, 0, 1), -1);
@@ -148,7 +152,7 @@ public final class PersonsTest {
     }
 
     private static void clashes() {
-        ShipYard x = new ShipYard();
+        Yard x = new Yard();
         x.open(0);
         x.open(1);
         x.open(2);
@@ -190,7 +194,8 @@ public final class PersonsTest {
     }
 
     /** One row made wrong: the fault that is due; 0: it is right. */
-    private static void fault(ShipYard x, int due, int table, int row, int... fields) {
+    private static void fault(int due, int table, int row, int... fields) {
+        Yard x = spacesAndTasks();
         x.open(0);
         Check.row(x, table, row, fields);
         int commits = x.told(0);
@@ -203,8 +208,8 @@ public final class PersonsTest {
         }
     }
 
-    private static void faults() {
-        ShipYard x = new ShipYard();
+    private static Yard spacesAndTasks() {
+        Yard x = new Yard();
         x.open(0);
         for (int s = 0; s < 16; s++) {
             Check.row(x, 1, s, 10, 20, 30, 40, 50, 60, 70, 80, 90);
@@ -215,50 +220,55 @@ public final class PersonsTest {
         Check.row(x, 10, 1, 1);
         Check.row(x, 10, 3, 1, 1, 1, 0, 1);
         Check.due("commit", x.commit(0), 1);
-        fault(x, 0, 2, 2, 0, 9, 3);
-        fault(x, -319, 2, 2, 1, 9, 3, 0, 0, 0, 1);
-        fault(x, -319, 2, 2, 1, 9, 9, 4, 3, 0, 1);
-        fault(x, -319, 2, 2, 2, 9, 9, 4, 4, 1, 1);
-        fault(x, 0, 2, 2, 2, 9, 9, 4, 4, 0, 1);
-        fault(x, 0, 2, 2, 2, 4, 5, 8, 15, 0, 2000);
-        fault(x, -319, 2, 2, 2, 4, 5, 7, 15, 0, 2000);
-        fault(x, 0, 2, 2, 2, 4, 5, 7, 15, 75, 2000);
-        fault(x, 0, 2, 2, 2, 4, 5, 7, 15, 0, 20);
-        fault(x, -319, 2, 2, 2, 4, 5, 7, 15, 0, 21);
-        fault(x, -319, 2, 2, 2, 4, 5, 7, 15, 74, 80);
-        fault(x, -318, 2, 0, 2, 2, 5);
-        fault(x, 0, 3, 23, 0, 2, 1);
-        fault(x, -356, 3, 23, 1, 2, 1);
-        fault(x, 0, 3, 23, 1, 2, 2);
-        fault(x, 0, 4, 0, 3 * (55 + 55 + 45 + 35 + 25 + 15 + 5));
-        fault(x, -357, 4, 0, 3 * (55 + 55 + 45 + 35 + 25 + 15 + 5) + 1);
-        fault(x, 0, 4, 0, 3 * (5 + 15 + 25 + 35 + 45 + 55 + 55));
-        fault(x, -358, 4, 1, 1);
-        fault(x, -359, 4, 2, 1);
-        fault(x, 0, 5, 0, 1, 0, 0, 0, -1, 0);
-        fault(x, 0, 5, 0, 1, 0, 0, 0, 1, 0);
-        fault(x, -373, 5, 0, 1, 0, 0, 0, 0, 0);
-        fault(x, -373, 5, 0, 1, 0, 0, 0, 2, 0);
-        fault(x, -373, 5, 0, 1, 0, 0, 0, -1, 2);
-        fault(x, 0, 5, 0, 0, 0, 0, 0, 3, 2);
-        fault(x, 0, 6, 5, 0, 8, 7);
-        fault(x, -386, 6, 5, 1, 8, 7);
-        fault(x, -405, 7, 0, 0, 1, 0, 0, 0, 0, 0, 0, 0, 0, 0, 0, 1);
-        fault(x, -405, 7, 0, 2, 2, 0, 0, 0, 0, 0, 0, 0, 0, 0, 0, 1);
-        fault(x, 0, 7, 0, 2, 0, 0, 0, 0, 0, 0, 0, 0, 0, 0, 1, 1);
-        fault(x, 0, 7, 0, 0, 2, 0, 0, 0, 0, 0, 0, 0, 0, 0, 0, 0);
-        fault(x, -413, 8, 0, 1, 2, 1);
-        fault(x, -413, 8, 0, 1, 2, 2, 1, 0);
-        fault(x, -413, 8, 0, 1, 2, 2, 1, 1, 7, 6);
-        fault(x, 0, 8, 0, 0, 2, 1, 1, 0, 7, 6);
-        fault(x, 0, 8, 0, 1, 2, 2, 1, 1, 6, 7);
-        fault(x, -431, 10, 0, 1, 0, 0, 0, 1);
-        fault(x, -431, 10, 0, 1, 0, 0, 0, 4);
-        fault(x, -431, 10, 0, 1, 0, 0, 0, 8);
-        fault(x, 0, 10, 1, 1, 0, 0, 0, 8);
-        fault(x, -432, 10, 1, 1, 0, 0, 0, 2);
-        fault(x, 0, 10, 2, 0, 0, 0, 0, 127);
-        fault(x, -434, 10, 0, 0);
+        return x;
+    }
+
+    private static void faults() {
+        fault(0, 2, 2, 0, 9, 3);
+        fault(-319, 2, 2, 1, 9, 3, 0, 0, 0, 1);
+        fault(-319, 2, 2, 1, 9, 9, 4, 3, 0, 1);
+        fault(-319, 2, 2, 2, 9, 9, 4, 4, 1, 1);
+        fault(0, 2, 2, 2, 9, 9, 4, 4, 0, 1);
+        fault(0, 2, 2, 2, 4, 5, 8, 15, 0, 2000);
+        fault(-319, 2, 2, 2, 4, 5, 7, 15, 0, 2000);
+        fault(0, 2, 2, 2, 4, 5, 7, 15, 75, 2000);
+        fault(0, 2, 2, 2, 4, 5, 7, 15, 0, 20);
+        fault(-319, 2, 2, 2, 4, 5, 7, 15, 0, 21);
+        fault(-319, 2, 2, 2, 4, 5, 7, 15, 74, 80);
+        fault(-318, 2, 0, 2, 2, 5);
+        fault(0, 3, 23, 0, 2, 1);
+        fault(-356, 3, 23, 1, 2, 1);
+        fault(0, 3, 23, 1, 2, 2);
+        fault(0, 4, 0, 3 * (55 + 55 + 45 + 35 + 25 + 15 + 5));
+        fault(-357, 4, 0, 3 * (55 + 55 + 45 + 35 + 25 + 15 + 5) + 1);
+        fault(0, 4, 0, 3 * (5 + 15 + 25 + 35 + 45 + 55 + 55));
+        fault(-358, 4, 1, 1);
+        fault(-359, 4, 2, 1);
+        fault(0, 5, 0, 1, 0, 0, 0, -1, 0);
+        fault(0, 5, 0, 1, 0, 0, 0, 1, 0);
+        fault(-373, 5, 0, 1, 0, 0, 0, 0, 0);
+        fault(-373, 5, 0, 1, 0, 0, 0, 2, 0);
+        fault(-373, 5, 0, 1, 0, 0, 0, -1, 2);
+        fault(0, 5, 0, 0, 0, 0, 0, 3, 2);
+        fault(0, 6, 5, 0, 8, 7);
+        fault(-386, 6, 5, 1, 8, 7);
+        fault(-405, 7, 0, 0, 1, 0, 0, 0, 0, 0, 0, 0, 0, 0, 0, 1);
+        fault(-405, 7, 0, 2, 2, 0, 0, 0, 0, 0, 0, 0, 0, 0, 0, 1);
+        fault(0, 7, 0, 2, 0, 0, 0, 0, 0, 0, 0, 0, 0, 0, 1, 1);
+        fault(0, 7, 0, 0, 2, 0, 0, 0, 0, 0, 0, 0, 0, 0, 0, 0);
+        fault(-413, 8, 0, 1, 2, 1);
+        fault(-413, 8, 0, 1, 2, 2, 1, 0);
+        fault(-413, 8, 0, 1, 2, 2, 1, 1, 7, 6);
+        fault(0, 8, 0, 0, 2, 1, 1, 0, 7, 6);
+        fault(0, 8, 0, 1, 2, 2, 1, 1, 6, 7);
+        fault(-431, 10, 0, 1, 0, 0, 0, 1);
+        fault(-431, 10, 0, 1, 0, 0, 0, 4);
+        fault(-431, 10, 0, 1, 0, 0, 0, 8);
+        fault(0, 10, 1, 1, 0, 0, 0, 8);
+        fault(-432, 10, 1, 1, 0, 0, 0, 2);
+        fault(0, 10, 2, 0, 0, 0, 0, 127);
+        fault(-434, 10, 0, 0);
+        Yard x = spacesAndTasks();
         x.open(0);
         x.put(0, 1, 3, 8, 21);
         Check.due("a deck that leaves a tank less room is right", x.commit(0) > 0 ? 1 : 0, 1);
@@ -271,7 +281,7 @@ public final class PersonsTest {
 
     /** Days and bits of tasks 0, 1, ..: what a commit of these answers on a new object. */
     private static void tasks(int due, int... daysAndBits) {
-        ShipYard x = new ShipYard();
+        Yard x = new Yard();
         x.open(0);
         StringBuilder told = new StringBuilder("tasks");
         for (int t = 0; t < daysAndBits.length / 2; t++) {
@@ -332,7 +342,7 @@ public final class PersonsTest {
     }
 
     private static void tape() {
-        ShipYard x = new ShipYard();
+        Yard x = new Yard();
         Check.due("cut(0)", x.cut(0), 0);
         Check.due("cut(1)", x.cut(1), -1);
         Check.due("cut(-1)", x.cut(-1), -1);
@@ -370,7 +380,7 @@ public final class PersonsTest {
     }
 
     private static void texts() {
-        ShipYard x = new ShipYard();
+        Yard x = new Yard();
         Check.due("a text", Check.text(x, "rule a = 1 < 2;"), 1);
         Check.due("told(5)", x.told(5), 0);
         Check.due("told(6)", x.told(6), -2);
@@ -415,7 +425,7 @@ public final class PersonsTest {
     }
 
     private static void undone() {
-        ShipYard x = new ShipYard();
+        Yard x = new Yard();
         Check.due("undo(0)", x.undo(0), -1);
         Check.due("undo(1)", x.undo(1), -1);
         Check.due("undo(-1)", x.undo(-1), -1);
@@ -461,14 +471,14 @@ public final class PersonsTest {
         Check.due("a clash behind reopen", x.undo(1), -238);
     }
 
-    private static void bytes(ShipYard x, int from, int... due) {
+    private static void bytes(Yard x, int from, int... due) {
         for (int i = 0; i < due.length; i++) {
             Check.due("log(" + (from + i) + ")", x.log(from + i), due[i]);
         }
     }
 
     private static void theLog() {
-        ShipYard x = new ShipYard();
+        Yard x = new Yard();
         x.open(0);
         x.put(0, 11, 8, 0, 4000);
         x.put(0, 0, 0, 0, 500);
@@ -487,34 +497,31 @@ public final class PersonsTest {
         bytes(x, 52, 0, 3, 0, 3, 0, 0, 0, 0, 0, 1, 1, 27, 0, 0, 0, 0, 3, 119, 0, 0, 0, 0, 90);
     }
 
+    /** A long text is committed, and each commit of it undone: 301 places each time. */
     private static void fullLog() {
-        ShipYard x = new ShipYard();
-        StringBuilder one = new StringBuilder();
-        StringBuilder two = new StringBuilder();
-        for (int i = 0; i < 1200; i++) {
-            one.append(' ');
-            two.append('\n');
-        }
-        int commits = 0;
-        int bytes = 0;
-        while (bytes + 5 + 6 * 300 <= 40000) {
-            int due = 5 + 6 * (commits == 0 ? 301 : 300);
+        Yard x = new Yard();
+        int most = 5 + 6 * 301;
+        Check.due("commit", Check.text(x, " ".repeat(1200)), 1);
+        int commits = 1;
+        while (most * (commits + 1) <= 40000) {
+            Check.due("told(1)", x.told(1), most * commits);
+            Check.due("undo", x.undo(commits), commits + 1);
             commits++;
-            Check.due("commit", Check.text(x, commits % 2 == 1 ? one.toString() : two.toString()), commits);
-            bytes += due;
-            Check.due("told(1)", x.told(1), bytes);
         }
-        Check.tape(x, commits % 2 == 0 ? one.toString() : two.toString());
+        int bytes = most * commits;
+        Check.due("bytes that are left", 40000 - bytes, 158);
+        Check.due("undo is FULL", x.undo(commits), -4);
+        Check.due("told(5)", x.told(5), 0);
+        Check.due("told(1)", x.told(1), bytes);
+        Check.due("told(0)", x.told(0), commits);
+        Check.due("a clash ahead of FULL", x.undo(commits - 1), -247);
+        Check.tape(x, "\n".repeat(1200));
         x.open(1);
         Check.due("write", x.write(1), 1200);
         Check.due("FULL", x.commit(1), -4);
         Check.due("told(5)", x.told(5), 0);
         Check.due("the transaction stays", x.told(4), 1);
         Check.due("FULL again", x.commit(1), -4);
-        Check.due("undo is FULL", x.undo(commits), -4);
-        Check.due("told(1)", x.told(1), bytes);
-        Check.due("told(0)", x.told(0), commits);
-        Check.due("a clash ahead of FULL", x.undo(commits - 1), -247);
         Check.tape(x, "?");
         x.write(1);
         Check.due("a fault ahead of FULL", x.commit(1), -447);
@@ -531,12 +538,10 @@ public final class PersonsTest {
             }
             int end = bytes + 5 + 6 * places;
             Check.due("the end", end, 40000 + (empty == 1 ? -4 : empty == 2 ? 1 : 0));
-            if (empty == 1) {
-                x.leave(1);
-            } else {
+            if (empty > 1) {
                 Check.due("a commit up to byte " + end, x.commit(1), end > 40000 ? -4 : commits + 4);
-                x.leave(1);
             }
+            x.leave(1);
         }
         Check.due("told(1)", x.told(1), 40000);
         x.open(1);
@@ -544,11 +549,11 @@ public final class PersonsTest {
         Check.due("crash of all", x.crash(x.told(1)), 0);
         Check.due("reopen", x.reopen(), 0);
         Check.due("model", x.model(12, 0, 0), 0);
-        Check.due("there is room again", Check.text(x, one.toString()), 1);
+        Check.due("there is room again", Check.text(x, "\n".repeat(1200)), 1);
     }
 
     private static void crashes() {
-        ShipYard x = new ShipYard();
+        Yard x = new Yard();
         Check.due("reopen", x.reopen(), -2);
         x.open(0);
         x.put(0, 11, 0, 0, 5);
@@ -578,7 +583,7 @@ public final class PersonsTest {
         Check.due("task", x.task(0, 0), -2);
         Check.due("rod", x.rod(0), -2);
         for (int n = 1; n <= 11; n++) {
-            ShipYard y = new ShipYard();
+            Yard y = new Yard();
             y.open(0);
             y.put(0, 11, 0, 0, 5);
             y.commit(0);
@@ -613,7 +618,7 @@ public final class PersonsTest {
     }
 
     private static void downAnswers() {
-        ShipYard x = new ShipYard();
+        Yard x = new Yard();
         Check.text(x, "let a = 1; rule b = a = 1;");
         x.open(0);
         x.put(0, 2, 0, 0, 1);

@@ -22,7 +22,7 @@ public final class RulesTest {
     }
 
     private static void refusals() {
-        ShipYard x = new ShipYard();
+        Yard x = new Yard();
         Check.text(x, "let a = 1; rule b = a = 1; rule c = a = 2;");
         Check.wild(n -> Check.due("rules(" + n + ")", x.rules(n), n == 0 ? 2 : n == 1 ? 1 : -1));
         Check.wild(n -> Check.due("verdict(" + n + ")", x.verdict(n), n == 0 ? 1 : n == 1 ? 0 : -1));
@@ -33,8 +33,8 @@ public final class RulesTest {
 
     // ---- faults
 
-    private static void fault(int kind, int at, String text) {
-        ShipYard x = new ShipYard();
+    static void fault(int kind, int at, String text) {
+        Yard x = new Yard();
         Check.due("commit of '" + text + "'", Check.text(x, text), kind == 0 ? 1 : -447);
         Check.due("kind of '" + text + "'", x.told(5), kind);
         Check.due("byte of '" + text + "'", x.told(6), kind == 0 ? -2 : at);
@@ -151,11 +151,11 @@ public final class RulesTest {
         fault(4, 30, "table a = 1:1; let b = 2; let a");
     }
 
-    private static String times(int n, String text) {
+    static String times(int n, String text) {
         return text.repeat(n);
     }
 
-    private static String name(int i) {
+    static String name(int i) {
         return "n" + (char) ('a' + i / 26) + (char) ('a' + i % 26);
     }
 
@@ -246,7 +246,7 @@ public final class RulesTest {
     // ---- values
 
     private static void value(String sum, long above, long below) {
-        ShipYard x = new ShipYard();
+        Yard x = new Yard();
         Check.due("commit of '" + sum + "'", Check.text(x, "table t = -5:3, 0:0, 3:2, 10:-4; let a = " + sum + ";"), 1);
         Check.due("above of '" + sum + "'", x.let(0, 0), above);
         Check.due("below of '" + sum + "'", x.let(0, 1), below);
@@ -336,7 +336,7 @@ public final class RulesTest {
     }
 
     private static void verdict(String rule, int due, int steps) {
-        ShipYard x = new ShipYard();
+        Yard x = new Yard();
         Check.due("commit of '" + rule + "'", Check.text(x, "let u = 1 / 0; let v = 2; rule r = " + rule + ";"), 1);
         Check.due("verdict of '" + rule + "'", x.verdict(0), due);
         Check.due("steps of '" + rule + "'", x.steps(0), steps);
@@ -382,7 +382,7 @@ public final class RulesTest {
         verdict("sum(i, 1, 64, sum(j, 1, 64, j * j)) = 0", 2, 10001);
         verdict("sum(i, 1, 64, sum(j, 1, 50, j * j)) + 1 > 0", 1, 1 + 2 + 64 * (3 + 150) + 4);
         exactly("sum(i, 1, 64, sum(k, 1, 49, 1 + 0)) + sum(i, 1, 2, sum(k, 1, 64, 1)) + sum(i, 1, 32, 1)");
-        ShipYard x = new ShipYard();
+        Yard x = new Yard();
         StringBuilder text = new StringBuilder("let a = 1 / 7;");
         for (char c = 'b'; c <= 'z'; c++) {
             text.append("let " + c + " = " + (char) (c - 1) + " + " + (char) (c - 1) + ";");
@@ -411,7 +411,7 @@ public final class RulesTest {
 
     /** Pads a sum with numbers to 10000 steps and to one more. */
     private static void exactly(String sum) {
-        ShipYard x = new ShipYard();
+        Yard x = new Yard();
         Check.text(x, "rule r = " + sum + " > 0;");
         int steps = x.steps(0);
         Check.due("steps below 10000", steps < 10000 && steps > 9500 ? 1 : 0, 1);
@@ -427,31 +427,31 @@ public final class RulesTest {
 
     // ---- the yard's words
 
-    static ShipYard ship(int height) {
-        ShipYard x = new ShipYard();
+    static Yard ship(int height) {
+        Yard x = new Yard();
         x.open(0);
-        Check.row(x, 0, 0, 120, 70, 100, 2, 9, 7, 2, 1);
+        Check.newRow(x, 0, 0, 120, 70, 100, 2, 9, 7, 2, 1);
         for (int s = 0; s < 16; s++) {
             int low = Math.max(0, Math.abs(2 * s - 15) - 7) * 8;
-            Check.row(x, 1, s, low, low, low, low, low + 10, low + 20, low + 30, low + 60, 200);
+            Check.newRow(x, 1, s, low, low, low, low, low + 10, low + 20, low + 30, low + 60, 200);
         }
-        Check.row(x, 3, 0, 900, 0, 15, 0, height);
-        Check.row(x, 3, 1, 300, 2, 5, 1, 30);
-        Check.row(x, 2, 0, 1, 0, 3, 0, 7, 0, 200, 2);
-        Check.row(x, 2, 3, 2, 6, 7, 3, 9, 10, 90, 2);
-        Check.row(x, 4, 3, 300, 14);
-        Check.row(x, 5, 0, 1, 4, 0, 20, 0, 3);
-        Check.row(x, 6, 0, 30, 0, 15, 7, 100);
-        Check.row(x, 6, 1, 20, 3, 8, 150, 700);
-        Check.row(x, 7, 0, 7, 1, 1, 0, 0, 0, 0, 0, 0, 0, 0, 0, 3, 1);
-        Check.row(x, 7, 5, 0xfffff, 1, 1, 0, 0, 0, 0, 0, 0, 0, 0, 0, 2, 1);
-        Check.row(x, 8, 0, 1, 5, 5, 0, 8, 0, 7);
-        Check.row(x, 9, 0, 1, 0, 2, 0, 9, 2, 0, 0);
-        Check.row(x, 9, 2, 1, 5, 2, 0, 9, 2, 0, 0);
-        Check.row(x, 10, 0, 3, 1, 0, 0, 0);
-        Check.row(x, 10, 2, 4, 2, 1, 1, 1);
+        Check.newRow(x, 3, 0, 900, 0, 15, 0, height);
+        Check.newRow(x, 3, 1, 300, 2, 5, 1, 30);
+        Check.newRow(x, 2, 0, 1, 0, 3, 0, 7, 0, 200, 2);
+        Check.newRow(x, 2, 3, 2, 6, 7, 3, 9, 10, 90, 2);
+        Check.newRow(x, 4, 3, 300, 14);
+        Check.newRow(x, 5, 0, 1, 4, 0, 20, 0, 3);
+        Check.newRow(x, 6, 0, 30, 0, 15, 7, 100);
+        Check.newRow(x, 6, 1, 20, 3, 8, 150, 700);
+        Check.newRow(x, 7, 0, 7, 1, 1, 0, 0, 0, 0, 0, 0, 0, 0, 0, 3, 1);
+        Check.newRow(x, 7, 5, 0xfffff, 1, 1, 0, 0, 0, 0, 0, 0, 0, 0, 0, 2, 1);
+        Check.newRow(x, 8, 0, 1, 5, 5, 0, 8, 0, 7);
+        Check.newRow(x, 9, 0, 1, 0, 2, 0, 9, 2, 0, 0);
+        Check.newRow(x, 9, 2, 1, 5, 2, 0, 9, 2, 0, 0);
+        Check.newRow(x, 10, 0, 3, 1, 0, 0, 0);
+        Check.newRow(x, 10, 2, 4, 2, 1, 1, 1);
         for (int k = 0; k < 6; k++) {
-            Check.row(x, 11, k, 20 + 9 * k);
+            Check.newRow(x, 11, k, 20 + 9 * k);
         }
         Check.due("commit", x.commit(0), 1);
         return x;
@@ -459,7 +459,7 @@ public final class RulesTest {
 
     /** What is worked out of nothing is 0, not undone. */
     private static void nothing() {
-        ShipYard x = new ShipYard();
+        Yard x = new Yard();
         Check.text(x, "let a = bars; let b = end; let c = led; let d = placed; let e = left; rule r = a + b + c + d + e = 0;");
         Check.due("not worked out", x.verdict(0), 2);
         x.bars();
@@ -473,7 +473,7 @@ public final class RulesTest {
         }
     }
 
-    private static void wordIs(ShipYard x, int k, long above, long below) {
+    private static void wordIs(Yard x, int k, long above, long below) {
         BigInteger g = BigInteger.valueOf(above).gcd(BigInteger.valueOf(below));
         long by = g.signum() == 0 ? 1 : g.longValue();
         Check.due("let(" + k + ", 0)", x.let(k, 0), below == 0 ? ShipYard.NONE : above / by);
@@ -481,7 +481,7 @@ public final class RulesTest {
     }
 
     private static void wordsByHand() {
-        ShipYard x = ship(60);
+        Yard x = ship(60);
         String[] sums = {"level", "trim", "heel", "water", "weight", "rounds", "draught(0)", "draught(15)", "draught(16)",
             "draught(-1)", "force(0)", "force(16)", "force(17)", "bend(7)", "lever(100)", "lever(-2049)", "lever(1/2)",
             "length", "breadth", "area(4)", "area(16)", "axis(4)", "second(4)", "room(3)", "room(1)", "fill(3)", "fill(0)",
@@ -570,14 +570,17 @@ public final class RulesTest {
     private static void randomTexts() {
         int good = 0;
         int[] kinds = new int[7];
-        ShipYard x = ship(60);
-        int calls = 0;
+        Looks[] looks = new Looks[6];
+        for (int i = 0; i < 6; i++) {
+            looks[i] = new Looks(i < 3 ? 60 : 20, i % 3 - 1);
+        }
+        int height = 60;
+        Yard x = ship(height);
         for (int seed = 0; seed < 6000; seed++) {
-            if (calls > 60) {
-                x = ship(seed % 2 == 0 ? 60 : 20);
-                calls = 0;
+            if (x.left() < 120) {
+                height = height == 60 ? 20 : 60;
+                x = ship(height);
             }
-            calls++;
             Random r = new Random(seed);
             String text = new Writer(r).text();
             if (seed % 3 != 0) {
@@ -594,14 +597,9 @@ public final class RulesTest {
             kinds[reader.kind]++;
             if (reader.kind == 0) {
                 good++;
-                if (seed % 2 == 0) {
-                    x.sea(r.nextInt(2));
-                    x.nest(0);
-                    x.bars();
-                    x.lead();
-                    x.plan();
-                }
-                compare(seed, x, reader);
+                int opened = seed % 2 == 0 ? r.nextInt(2) : -1;
+                workOut(x, opened);
+                compare(seed, x, reader, looks[(height == 60 ? 1 : 4) + opened]);
             }
         }
         StringBuilder told = new StringBuilder("random texts: good " + good + ", by faults");
@@ -636,17 +634,28 @@ public final class RulesTest {
         return s.toString();
     }
 
-    private static void compare(int seed, ShipYard x, Reader reader) {
+    /** Works all out, with the sea in some spaces; -1: nothing. */
+    private static void workOut(Yard x, int opened) {
+        if (opened >= 0) {
+            x.sea(opened);
+            x.nest(0);
+            x.bars();
+            x.lead();
+            x.plan();
+        }
+    }
+
+    private static void compare(int seed, Yard x, Reader reader, Looks looks) {
         Check.due(seed + " rules", x.rules(0), reader.rules.size());
         Check.due(seed + " lets", x.rules(1), reader.lets.size());
         for (int k = 0; k < reader.rules.size(); k++) {
-            Meter m = new Meter(x, reader);
+            Meter m = new Meter(looks, reader);
             int due = m.verdict(reader.rules.get(k));
             Check.due(seed + " verdict(" + k + ") of '" + reader.text + "'", x.verdict(k), due);
             Check.due(seed + " steps(" + k + ") of '" + reader.text + "'", x.steps(k), m.steps);
         }
         for (int k = 0; k < reader.lets.size(); k++) {
-            Meter m = new Meter(x, reader);
+            Meter m = new Meter(looks, reader);
             BigInteger[] due = m.letValue(reader.lets.get(k));
             Check.due(seed + " let(" + k + ", 0) of '" + reader.text + "'", x.let(k, 0),
                     due == null ? ShipYard.NONE : due[0].longValueExact());
@@ -1018,18 +1027,104 @@ public final class RulesTest {
         }
     }
 
+    /** What a ship answers in one state: each thing is asked once, of as many objects as that needs. */
+    private static final class Looks {
+        private final int height;
+        private final int opened;
+        private Yard yard;
+        private final Map<String, Long> known = new HashMap<>();
+
+        Looks(int height, int opened) {
+            this.height = height;
+            this.opened = opened;
+        }
+
+        private long look(String call, int a, int b, int c) {
+            return known.computeIfAbsent(call + " " + a + " " + b + " " + c, key -> ask(call, a, b, c));
+        }
+
+        private long ask(String call, int a, int b, int c) {
+            if (yard == null || yard.left() < 1) {
+                yard = ship(height);
+                workOut(yard, opened);
+            }
+            switch (call) {
+                case "rest": return yard.rest(a);
+                case "along": return yard.along(a, b);
+                case "arm": return yard.arm(a);
+                case "model": return yard.model(a, b, c);
+                case "sheet": return yard.sheet(a, b);
+                case "piece": return yard.piece(a, b);
+                case "rod": return yard.rod(a);
+                case "way": return yard.way(a, b);
+                case "task": return yard.task(a, b);
+                case "bars": return yard.bars();
+                case "lead": return yard.lead();
+                default: return yard.plan();
+            }
+        }
+
+        long rest(int what) {
+            return look("rest", what, 0, 0);
+        }
+
+        long along(int what, int k) {
+            return look("along", what, k, 0);
+        }
+
+        long arm(int c) {
+            return look("arm", c, 0, 0);
+        }
+
+        int model(int table, int row, int field) {
+            return (int) look("model", table, row, field);
+        }
+
+        int sheet(int s, int what) {
+            return (int) look("sheet", s, what, 0);
+        }
+
+        int piece(int k, int what) {
+            return (int) look("piece", k, what, 0);
+        }
+
+        int rod(int k) {
+            return (int) look("rod", k, 0, 0);
+        }
+
+        int way(int pipe, int what) {
+            return (int) look("way", pipe, what, 0);
+        }
+
+        int task(int t, int what) {
+            return (int) look("task", t, what, 0);
+        }
+
+        int bars() {
+            return (int) look("bars", 0, 0, 0);
+        }
+
+        int lead() {
+            return (int) look("lead", 0, 0, 0);
+        }
+
+        int plan() {
+            return (int) look("plan", 0, 0, 0);
+        }
+    }
+
     private static final class Over extends RuntimeException {
     }
 
     /** Works parts out with whole numbers of any size, lets anew each time; null is UNDONE. */
     private static final class Meter {
         static final BigInteger MOST = BigInteger.TEN.pow(18);
-        final ShipYard x;
+        final Looks x;
         final Reader reader;
         final Map<String, BigInteger> counters = new HashMap<>();
         int steps = 0;
 
-        Meter(ShipYard x, Reader reader) {
+        Meter(Looks x, Reader reader) {
             this.x = x;
             this.reader = reader;
         }

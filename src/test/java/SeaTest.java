@@ -19,7 +19,7 @@ public final class SeaTest {
     private static final int[] kinds = new int[4];
 
     private static void refusals() {
-        ShipYard x = new ShipYard();
+        Yard x = new Yard();
         Check.wild(n -> Check.due("rest(" + n + ")", x.rest(n), n < 0 || n > 11 ? -1 : -2));
         Check.wild(n -> Check.due("water(" + n + ", 0)", x.water(n, 0), n < 0 || n > 15 ? -1 : -2));
         Check.wild(n -> Check.due("water(0, " + n + ")", x.water(0, n), n < 0 || n > 15 ? -1 : -2));
@@ -34,7 +34,7 @@ public final class SeaTest {
     }
 
     private static void box() {
-        ShipYard x = new ShipYard();
+        Yard x = new Yard();
         x.open(0);
         Check.row(x, 0, 0, 100, 100);
         for (int s = 0; s < 16; s++) {
@@ -75,7 +75,7 @@ public final class SeaTest {
     }
 
     private static void flooding() {
-        ShipYard x = new ShipYard();
+        Yard x = new Yard();
         x.open(0);
         Check.row(x, 0, 0, 100, 100);
         for (int s = 0; s < 16; s++) {
@@ -112,7 +112,7 @@ public final class SeaTest {
     /** An opening at the plane lets nothing in, one below it does; a ship without weight has no rest. */
     private static void edges() {
         for (int height = 48; height <= 51; height++) {
-            ShipYard x = new ShipYard();
+            Yard x = new Yard();
             x.open(0);
             Check.row(x, 0, 0, 100, 100);
             for (int s = 0; s < 16; s++) {
@@ -134,7 +134,7 @@ public final class SeaTest {
     }
 
     private static void steel() {
-        ShipYard x = new ShipYard();
+        Yard x = new Yard();
         x.open(0);
         Check.row(x, 6, 0, 10000, 0, 15, 2000, 1000000000);
         Check.row(x, 6, 1, 7, 3, 4, 11, 13);
@@ -151,18 +151,19 @@ public final class SeaTest {
 
     private static void randomShip(int seed) {
         Random r = new Random(seed);
-        ShipYard x = new ShipYard();
+        Yard x = new Yard();
         x.open(0);
-        Reckoning m = new Reckoning(x);
-        Check.row(x, 0, 0, 1 + r.nextInt(r.nextBoolean() ? 500 : 60), 1 + r.nextInt(r.nextBoolean() ? 500 : 60));
+        Reckoning m = new Reckoning();
+        m.row(x, 0, 0, 1 + r.nextInt(r.nextBoolean() ? 500 : 60), 1 + r.nextInt(r.nextBoolean() ? 500 : 60));
         int deck = 20 + r.nextInt(r.nextInt(4) == 0 ? 1900 : 400);
         for (int s = 0; s < 16; s++) {
             int ends = Math.max(0, Math.abs(2 * s - 15) - 7);
+            int[] hull = new int[9];
             for (int f = 0; f < 8; f++) {
-                int low = r.nextInt(3) == 0 ? r.nextInt(deck) : deck * (ends + f) / 40;
-                x.put(0, 1, s, f, low);
+                hull[f] = r.nextInt(3) == 0 ? r.nextInt(deck) : deck * (ends + f) / 40;
             }
-            x.put(0, 1, s, 8, Math.min(2000, deck + r.nextInt(10)));
+            hull[8] = Math.min(2000, deck + r.nextInt(10));
+            m.row(x, 1, s, hull);
         }
         int volume = deck * 256 / 2;
         int weights = 1 + r.nextInt(4);
@@ -170,27 +171,27 @@ public final class SeaTest {
             int from = i == 0 ? 0 : r.nextInt(16);
             int to = i == 0 ? 15 : from + r.nextInt(16 - from);
             int units = (int) Math.min(60000, (long) volume * (2 + r.nextInt(seed % 4 == 0 ? 40 : 12)) / 16 / (to - from + 1) / weights);
-            Check.row(x, 3, i, units, from, to, i == 0 ? 0 : r.nextInt(31) - 15, r.nextInt(1 + deck / (1 + r.nextInt(6))));
+            m.row(x, 3, i, units, from, to, i == 0 ? 0 : r.nextInt(31) - 15, r.nextInt(1 + deck / (1 + r.nextInt(6))));
         }
         int spaces = r.nextInt(6);
         for (int p = 0; p < spaces; p++) {
             int s0 = p * 16 / 6;
             int k0 = r.nextInt(16);
             int h0 = r.nextInt(deck);
-            Check.row(x, 2, p, 1 + r.nextInt(2), s0, s0 + r.nextInt(2), k0, k0 + r.nextInt(16 - k0), h0,
+            m.row(x, 2, p, 1 + r.nextInt(2), s0, s0 + r.nextInt(2), k0, k0 + r.nextInt(16 - k0), h0,
                     h0 + 1 + r.nextInt(2000 - h0), r.nextInt(17));
         }
         for (int p = 0; p < spaces; p++) {
-            if (x.get(0, 2, p, 0) == 2) {
+            if (m.get(2, p, 0) == 2) {
                 int room = m.room(p);
-                Check.row(x, 4, p, Math.min(600000, r.nextInt(3) == 0 ? room : r.nextInt(room + 1)), 1 + r.nextInt(32));
+                m.row(x, 4, p, Math.min(600000, r.nextInt(3) == 0 ? room : r.nextInt(room + 1)), 1 + r.nextInt(32));
             }
         }
         for (int i = 0; i < 8 && spaces > 1; i++) {
             int one = r.nextInt(spaces + 1) - 1;
             int other = (one + 1 + r.nextInt(spaces - 1)) % spaces;
             if (one != other) {
-                Check.row(x, 5, i, r.nextInt(2), r.nextInt(16), r.nextInt(16), r.nextInt(deck + 1), one, other);
+                m.row(x, 5, i, r.nextInt(2), r.nextInt(16), r.nextInt(16), r.nextInt(deck + 1), one, other);
             }
         }
         Check.due("commit " + seed, x.commit(0), 1);
@@ -214,32 +215,34 @@ public final class SeaTest {
             Check.due(seed + " bend", x.along(2, k), m.bend[k]);
             Check.due(seed + " liquid", x.liquid(k), k == 16 ? -1 : m.hasLiquid(k) ? m.liquidLevel(k, m.b, m.c) : -2);
         }
-        for (int i = 0; i < 256; i++) {
-            Check.due(seed + " water", x.water(i / 16, i % 16), m.points(i / 16, i % 16));
-        }
         for (int c : new int[] {-2048, r.nextInt(4097) - 2048, 0, 2048}) {
             Check.due(seed + " arm(" + c + ")", x.arm(c), m.lever(c));
         }
         for (int what = 5; what < 12; what++) {
             Check.due(seed + " rest(" + what + ") behind arm()", x.rest(what), due[what]);
         }
+        for (int i = r.nextInt(256); x.left() > 0; i = (i + 37) % 256) {
+            Check.due(seed + " water", x.water(i / 16, i % 16), m.points(i / 16, i % 16));
+        }
     }
 
     /** The document's words, told again as plainly as may be, with 300001 levels halved for each plane. */
     private static final class Reckoning {
-        final ShipYard x;
+        /** The model, told here as well, since a call for each number would be too many. */
+        private final int[][][] fields = new int[7][24][9];
         int answer, rounds, open, a, b, c;
         long weight, all, v, vx, vy, vz, wx, wy, wz;
         final long[] load = new long[16];
         final long[] force = new long[17];
         final long[] bend = new long[17];
 
-        Reckoning(ShipYard x) {
-            this.x = x;
+        void row(Yard x, int table, int row, int... values) {
+            Check.row(x, table, row, values);
+            System.arraycopy(values, 0, fields[table][row], 0, values.length);
         }
 
         int get(int table, int row, int field) {
-            return x.told(4) > 0 ? x.get(0, table, row, field) : x.model(table, row, field);
+            return fields[table][row][field];
         }
 
         int bottom(int s, int k) {
@@ -258,7 +261,6 @@ public final class SeaTest {
             return units;
         }
 
-        // The model is copied once, since a call for each number takes long.
         final int[] low = new int[256];
         final int[] deck = new int[256];
         final int[][] space = new int[16][8];

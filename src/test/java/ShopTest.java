@@ -26,7 +26,7 @@ public final class ShopTest {
     }
 
     private static void refusals() {
-        ShipYard x = new ShipYard();
+        Yard x = new Yard();
         Check.wild(n -> Check.due("piece(" + n + ", 0)", x.piece(n, 0), n < 0 ? -1 : -2));
         Check.wild(n -> Check.due("piece(0, " + n + ")", x.piece(0, n), n < 0 || n > 4 ? -1 : -2));
         Check.wild(n -> Check.due("sheet(" + n + ", 0)", x.sheet(n, 0), n < 0 || n > 5 ? -1 : -2));
@@ -52,8 +52,8 @@ public final class ShopTest {
         Check.due("edges of it", x.sheet(5, 3), 0);
     }
 
-    private static ShipYard yard(int... fields) {
-        ShipYard x = new ShipYard();
+    private static Yard yard(int... fields) {
+        Yard x = new Yard();
         x.open(0);
         Check.row(x, 0, 0, fields);
         return x;
@@ -62,7 +62,7 @@ public final class ShopTest {
     // ---- plates
 
     private static void nestByHand() {
-        ShipYard x = yard(1, 1, 1, 0, 5, 4);
+        Yard x = yard(1, 1, 1, 0, 5, 4);
         x.put(0, 7, 2, 0, 3);
         x.put(0, 7, 2, 1, 1);
         x.put(0, 7, 2, 12, 2);
@@ -97,7 +97,7 @@ public final class ShopTest {
         Random r = new Random(seed);
         int w = 1 + r.nextInt(seed % 10 == 0 ? 64 : 14);
         int h = 1 + r.nextInt(seed % 10 == 0 ? 48 : 10);
-        ShipYard x = yard(1, 1, 1, 0, w, h);
+        Yard x = yard(1, 1, 1, 0, w, h);
         int plates = 1 + r.nextInt(8);
         int[][] rows = new int[8][14];
         for (int p = 0; p < plates; p++) {
@@ -239,7 +239,7 @@ public final class ShopTest {
     // ---- rods
 
     private static void barsByHand() {
-        ShipYard x = yard(1, 1, 100, 10);
+        Yard x = yard(1, 1, 100, 10);
         Check.row(x, 11, 0, 45);
         Check.row(x, 11, 4, 45);
         Check.row(x, 11, 8, 100);
@@ -269,7 +269,7 @@ public final class ShopTest {
         Random r = new Random(seed);
         int bar = 10 + r.nextInt(60);
         int cut = r.nextInt(6);
-        ShipYard x = yard(1, 1, bar, cut);
+        Yard x = yard(1, 1, bar, cut);
         int[] length = new int[9];
         for (int k = 0; k < 9; k++) {
             length[k] = r.nextInt(6) == 0 ? 0 : 1 + r.nextInt(seed % 3 == 0 ? bar : bar / 2);
@@ -314,7 +314,7 @@ public final class ShopTest {
     // ---- pipes
 
     private static void pipesByHand() {
-        ShipYard x = yard(1);
+        Yard x = yard(1);
         Check.row(x, 9, 0, 1, 0, 0, 0, 2, 1, 1, 0);
         Check.row(x, 9, 1, 1, 5, 5, 5, 5, 5, 5, 1);
         Check.row(x, 9, 2, 1, 4, 4, 4, 9, 9, 7, 0);
@@ -344,7 +344,7 @@ public final class ShopTest {
 
     private static void pipes(int seed) {
         Random r = new Random(seed);
-        ShipYard x = yard(1);
+        Yard x = yard(1);
         boolean[] taken = new boolean[1600];
         int solids = r.nextInt(13);
         for (int i = 0; i < solids; i++) {
@@ -459,7 +459,7 @@ public final class ShopTest {
     // ---- work
 
     private static void planByHand() {
-        ShipYard x = yard(1, 1, 1, 0, 1, 1, 2, 1);
+        Yard x = yard(1, 1, 1, 0, 1, 1, 2, 1);
         Check.row(x, 10, 0, 5, 1, 1, 0, 0);
         Check.row(x, 10, 2, 3, 1, 1, 4, 0);
         Check.row(x, 10, 4, 2, 2, 0, 0, 0);
@@ -490,7 +490,7 @@ public final class ShopTest {
         Random r = new Random(seed);
         int hands = 1 + r.nextInt(6);
         int cranes = 1 + r.nextInt(6);
-        ShipYard x = yard(1, 1, 1, 0, 1, 1, hands, cranes);
+        Yard x = yard(1, 1, 1, 0, 1, 1, hands, cranes);
         int[][] task = new int[7][];
         for (int t = 0; t < 7; t++) {
             task[t] = new int[] {r.nextInt(7) == 0 ? 0 : 1 + r.nextInt(seed % 4 == 0 ? 20 : 5), r.nextInt(hands + 1),

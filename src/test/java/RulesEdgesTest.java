@@ -138,6 +138,9 @@ public final class RulesEdgesTest {
         undone("m / 2 + 1 / 2");
         undone("-1 / 2 - m / 2");
         undone("m / 2 + (m / 2 + 1)");
+        // both products
+        undone("m / 3 + m / 7");
+        undone("m / 3 - m / 7");
         value("m / 2 + m / 2", MOST, 1);
         // b d
         value("1 / t + 1 / t", 1, 500000000);
@@ -203,6 +206,8 @@ public final class RulesEdgesTest {
         verdict("-m < 1 / 2", 2);
         verdict("1 / 2 # -m", 2);
         verdict("m / 2 + 1 > 1 / 2", 2);
+        verdict("m / 3 > m / 7", 2);
+        verdict("m / 3 = m / 7", 2);
         verdict("1 / t = 1 / t", 1);
         verdict("1 / m < 1", 1);
         verdict("1 / m < 2", 2);
@@ -605,6 +610,13 @@ public final class RulesEdgesTest {
         Check.due("none such", x.verdict(24), BAD);
         Check.due("the last let", x.let(39, 0), 1);
         Check.due("none such", x.let(40, 0), NONE);
+        String all = lets(39) + someTables(8) + someRules(24);
+        x = text(all + "let z=nbm+qh(1);");
+        Check.due("the last one of each", x.let(39, 0), 2);
+        wrong(4, all.length() + 4, all + "let px=1;");
+        wrong(4, all.length() + 4, all + "let qh=1;");
+        wrong(4, all.length() + 4, all + "let nbm=1;");
+        wrong(3, all.length() + 6, all + "let z=px;");
         Check.says("5 .. the 13th POINT of a table (at its first TOKEN)");
         right(manyPoints(12) + ";");
         wrong(5, manyPoints(12).length() + 1, manyPoints(13) + ";");
@@ -647,6 +659,16 @@ public final class RulesEdgesTest {
         wrong(5, 8 + 6 * 24, "let a = " + times(24, "sum(k,") + "1" + times(24, ",1,1)") + ";");
         right("let a = " + times(23, "(") + "1+1*1-1" + times(23, ")") + "+" + times(23, "(") + "1" + times(23, ")") + ";");
         wrong(5, 8 + 23 + 2 + 1, "let a = " + times(23, "(") + "1+" + times(23, "(") + "1");
+        for (int more = 25; more <= 30; more += 5) {
+            wrong(5, 9 + 4 * 24, "rule a = " + times(more, "not ") + "1 = 1;");
+            wrong(5, 9 + 24, "rule a = " + times(more, "[") + "1 = 1" + times(more, "]") + ";");
+            wrong(5, 9 + 4 * 20 + 4, "rule a = " + times(20, "not ") + times(more, "[") + "1 = 1" + times(more, "]") + ";");
+            wrong(5, 8 + 24, "let a = " + times(more, "-") + "1;");
+            wrong(5, 8 + 24, "let a = " + times(more, "(") + "1" + times(more, ")") + ";");
+            wrong(5, 8 + 24 * 5, "let a = " + times(more, "room(") + "1" + times(more, ")") + ";");
+            wrong(5, 8 + 24 * 6, "let a = " + times(more, "max(k,") + "1" + times(more, ",1,1)") + ";");
+            wrong(5, 8 + 12 * 3, "let a = " + times(more, "if(") + "1" + times(more, "=1,1,1)") + ";");
+        }
         Yard x = text("let a = " + times(23, "-") + "7; rule r = " + times(21, "not ") + "1 = 2;");
         Check.due("23 times less", x.let(0, 0), -7);
         Check.due("21 times not", x.verdict(0), 1);
@@ -692,6 +714,8 @@ public final class RulesEdgesTest {
     private static void firstFromTheLeft() {
         Check.says("Then the first one from the left");
         wrong(3, 8, "let a = b + c + ;");
+        wrong(2, 10, "let a = 1 b;");
+        wrong(2, 10, "let a = 1 level;");
         wrong(2, 10, "let a = 1 1 + b;");
         wrong(4, 4, "let level = b;");
         wrong(6, 15, "table t = 1:1, 1;");
@@ -788,6 +812,12 @@ public final class RulesEdgesTest {
         tableAt("4", 8, 7);
         tableAt("10 - 1 / 7", -190, 49);
         tableAt("10", -4, 1);
+        Yard wide = text("table q = -999999999:-999999999, 0:0, 1:-999999999, 999999999:999999999; let a = q(999999999);"
+                + "let b = q(999999999 - 1); let c = q(0); let d = q(-1);");
+        Check.due("it is that x", wide.let(0, 0), 999999999);
+        Check.due("just ahead of it: the product is beyond", wide.let(1, 0), NONE);
+        Check.due("it is that x", wide.let(2, 0), 0);
+        Check.due("just ahead of it", wide.let(3, 0), -1);
         Check.says("behind the last one: its y");
         tableAt("10 + 1 / 7", -4, 1);
         tableAt("11", -4, 1);
@@ -1228,5 +1258,13 @@ public final class RulesEdgesTest {
         Check.due("rules when DOWN", x.rules(1), DOWN);
         x.reopen();
         Check.due("a sum of 596 behind reopen()", x.let(0, 0), 596);
+        Check.due("a product of 590", text("let a = 7" + times(589, "*1") + ";").let(0, 0), 7);
+        Check.due("a product of 590", text("let a = 7" + times(588, "/1") + "/2;").let(0, 1), 2);
+        x = text("rule r = " + times(168, "1=2 or ") + "1=1;");
+        Check.due("one of 169 is TRUE", x.verdict(0), 1);
+        Check.due("STEPS", x.steps(0), 4 * 168 + 3);
+        x = text("rule r = " + times(147, "1=1 and ") + "1=2;");
+        Check.due("one of 148 is FALSE", x.verdict(0), 0);
+        Check.due("STEPS", x.steps(0), 4 * 147 + 3);
     }
 }

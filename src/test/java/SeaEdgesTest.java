@@ -16,7 +16,8 @@ public final class SeaEdgesTest {
         sinksLater();
         levels();
         liquids();
-        liquidPoints();
+        liquidPoints(0);
+        liquidPoints(12);
         steepestTrim();
         noTrim();
         steepestHeel();
@@ -334,18 +335,22 @@ public final class SeaEdgesTest {
         }
     }
 
-    private static void liquidPoints() {
+    /** Four tanks round the middle, from a SPACE on. */
+    private static void liquidPoints(int first) {
         Check.says("of these WX, WY, WZ have POINTS times weight times 2 s - 15, times 2 k - 15, times (lower + upper end)");
         // 64 POINTS in three COLUMNS each: 21 in each of them, one is left over.
-        Yard x = box(100, 800, row(2, 0, 2, 7, 7, 5, 7, 0, 100, 0), row(2, 1, 2, 7, 7, 8, 10, 0, 100, 0),
-                row(2, 2, 2, 8, 8, 5, 7, 0, 100, 0), row(2, 3, 2, 8, 8, 8, 10, 0, 100, 0), row(4, 0, 1, 16), row(4, 1, 1, 16),
-                row(4, 2, 1, 16), row(4, 3, 1, 16));
+        int[][] rows = new int[8][];
+        for (int i = 0; i < 4; i++) {
+            rows[i] = row(2, first + i, 2, 7 + i / 2, 7 + i / 2, 5 + i % 2 * 3, 7 + i % 2 * 3, 0, 100, 0);
+            rows[4 + i] = row(4, first + i, 1, 16);
+        }
+        Yard x = box(100, 800, rows);
         Check.due("sea", x.sea(0), RESTS);
         long w = 16L * 1024 * 800;
         Check.due("W has all POINTS", x.rest(3), w + 4 * 64 * 16);
         plane(x, 3201, 0, 0);
         for (int p = 0; p < 4; p++) {
-            Check.due("liquid(" + p + ")", x.liquid(p), 21);
+            Check.due("liquid(" + (first + p) + ")", x.liquid(first + p), 21);
         }
         Check.due("VX - WX", x.rest(9), 0);
         Check.due("VY - WY", x.rest(10), 0);
@@ -469,8 +474,15 @@ public final class SeaEdgesTest {
         Check.newRow(x, 1, 7, 1, 100, 100, 100, 100, 100, 100, 100, 100);
         Check.newRow(x, 1, 9, 100, 100, 100, 100, 100, 100, 100, 0, 100);
         Check.newRow(x, 3, 0, 2, 4, 4);
+        Check.newRow(x, 2, 0, 1, 9, 9, 15, 15, 0, 100);
+        Check.newRow(x, 2, 1, 1, 9, 9, 0, 0, 0, 100);
         x.commit(0);
         Check.due("TRIM of both ends is none, TRIM(0) is not", x.sea(0), NO_REST);
+        Check.due("TRIM(-2048) alone is none", x.sea(1), NO_REST);
+        Check.due("TRIM(2048) alone is none", x.sea(2), NO_REST);
+        Check.due("none is none", x.sea(3), RESTS);
+        // T(b, 0) is 2048 16 6 W + b 192 W.
+        plane(x, 128 - 1024, -1024, 0);
     }
 
     // ---- openings and rounds
@@ -664,6 +676,9 @@ public final class SeaEdgesTest {
         Check.due("another one, the SPACE being OPEN", dry == open ? 0 : 1, 1);
         Check.due("sea", x.sea(0), RESTS);
         Check.due("as it was", x.arm(500), dry);
+        x = box(100, 800, row(2, 0, 1, 0, 15, 0, 15, 40, 60, 0), row(5, 0, 1, 0, 0, 0, -1, 0));
+        Check.due("sea", x.sea(0), RESTS);
+        Check.due("OPEN by a ROUND", x.arm(500), open);
     }
 
     private static void alongAnswers() {

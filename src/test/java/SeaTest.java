@@ -167,21 +167,27 @@ public final class SeaTest {
         }
         int volume = deck * 256 / 2;
         int weights = 1 + r.nextInt(4);
+        int lastWeight = r.nextInt(24);
         for (int i = 0; i < weights; i++) {
             int from = i == 0 ? 0 : r.nextInt(16);
             int to = i == 0 ? 15 : from + r.nextInt(16 - from);
             int units = (int) Math.min(60000, (long) volume * (2 + r.nextInt(seed % 4 == 0 ? 40 : 12)) / 16 / (to - from + 1) / weights);
-            m.row(x, 3, i, units, from, to, i == 0 ? 0 : r.nextInt(31) - 15, r.nextInt(1 + deck / (1 + r.nextInt(6))));
+            m.row(x, 3, (lastWeight + i) % 24, units, from, to, i == 0 ? 0 : r.nextInt(31) - 15, r.nextInt(1 + deck / (1 + r.nextInt(6))));
         }
         int spaces = r.nextInt(6);
+        int[] space = new int[6];
+        for (int p = 0; p < 6; p++) {
+            space[p] = (15 + seed + 3 * p) % 16;
+        }
         for (int p = 0; p < spaces; p++) {
             int s0 = p * 16 / 6;
             int k0 = r.nextInt(16);
             int h0 = r.nextInt(deck);
-            m.row(x, 2, p, 1 + r.nextInt(2), s0, s0 + r.nextInt(2), k0, k0 + r.nextInt(16 - k0), h0,
+            m.row(x, 2, space[p], 1 + r.nextInt(2), s0, s0 + r.nextInt(2), k0, k0 + r.nextInt(16 - k0), h0,
                     h0 + 1 + r.nextInt(2000 - h0), r.nextInt(17));
         }
-        for (int p = 0; p < spaces; p++) {
+        for (int i = 0; i < spaces; i++) {
+            int p = space[i];
             if (m.get(2, p, 0) == 2) {
                 int room = m.room(p);
                 m.row(x, 4, p, Math.min(600000, r.nextInt(3) == 0 ? room : r.nextInt(room + 1)), 1 + r.nextInt(32));
@@ -191,11 +197,23 @@ public final class SeaTest {
             int one = r.nextInt(spaces + 1) - 1;
             int other = (one + 1 + r.nextInt(spaces - 1)) % spaces;
             if (one != other) {
-                m.row(x, 5, i, r.nextInt(2), r.nextInt(16), r.nextInt(16), r.nextInt(deck + 1), one, other);
+                m.row(x, 5, i, r.nextInt(2), r.nextInt(16), r.nextInt(16), r.nextInt(deck + 1), one < 0 ? -1 : space[one],
+                        space[other]);
             }
         }
+        // What stands behind the last OPENING and the last STEEL is not theirs.
+        m.row(x, 6, 0, 1 + r.nextInt(9), 0, 15, 0, 1);
+        m.row(x, 6, 23, 1 + r.nextInt(9), 0, r.nextInt(16), r.nextInt(9), r.nextInt(9));
+        m.row(x, 7, 0, 1 + r.nextInt(9), 0, 15, 1, 1);
         Check.due("commit " + seed, x.commit(0), 1);
-        int open = r.nextInt(1 << spaces);
+        int open = 0;
+        for (int p = 0; p < spaces; p++) {
+            open |= r.nextInt(2) << space[p];
+        }
+        for (int what = 3; what < 6; what++) {
+            int s = r.nextInt(16);
+            Check.due(seed + " along(" + what + ", " + s + ")", x.along(what, s), m.steel(s, what));
+        }
         int answer = x.sea(open);
         m.sea(open);
         kinds[m.answer]++;
@@ -229,7 +247,7 @@ public final class SeaTest {
     /** The document's words, told again as plainly as may be, with 300001 levels halved for each plane. */
     private static final class Reckoning {
         /** The model, told here as well, since a call for each number would be too many. */
-        private final int[][][] fields = new int[7][24][9];
+        private final int[][][] fields = new int[8][24][9];
         int answer, rounds, open, a, b, c;
         long weight, all, v, vx, vy, vz, wx, wy, wz;
         final long[] load = new long[16];
@@ -278,6 +296,18 @@ public final class SeaTest {
                 fill[p][0] = get(4, p, 0);
                 fill[p][1] = get(4, p, 1);
             }
+        }
+
+        long steel(int s, int what) {
+            long sum = 0;
+            for (int i = 0; i < 24; i++) {
+                long area = get(6, i, 0);
+                long height = get(6, i, 3);
+                if (area > 0 && s >= get(6, i, 1) && s <= get(6, i, 2)) {
+                    sum += what == 3 ? area : what == 4 ? area * height : area * height * height + get(6, i, 4);
+                }
+            }
+            return sum;
         }
 
         boolean has(int p, int s, int k) {

@@ -365,6 +365,13 @@ public final class ShopEdgesTest {
         x = with(sheetSize(64, 48), plate(0, 2, 0, 16777215), plate(1, 1, 0, 1023));
         x.nest(3);
         pieceIs(x, 2, 1, 0, 54, 0, 0);
+        // The last PIECE of the first SHEET reaches down to its last row, 47; the next SHEET's first row is free.
+        x = with(sheetSize(1, 48), plate(0, 3, 0, 1, 1, 1, 1, 1, 1, 1, 1, 1, 1, 1, 1), plate(1, 1, 0, 1, 1, 1, 1, 1, 1, 1, 1, 1),
+                plate(2, 1, 0, 1));
+        Check.due("down to the end of 48", x.nest(1), 5);
+        pieceIs(x, 3, 1, 0, 0, 39, 0);
+        pieceIs(x, 4, 2, 1, 0, 0, 0);
+        Check.due("the first SHEET's rows", x.sheet(0, 2), 48);
     }
 
     private static void nestAnswers() {
@@ -840,11 +847,21 @@ public final class ShopEdgesTest {
             rows[i] = pipe(i, 0, i, 0, 19, i, 0, 0);
         }
         x = with(rows);
+        for (int round = 0; round < 3; round++) {
+            Check.due("all six", x.lead(), 6);
+            for (int i = 0; i < 6; i += 5) {
+                wayIs(x, i, 38, 0, "0".repeat(19));
+            }
+        }
+        change(x, pipe(0, 0, 9, 0, 1, 9, 1, 0));
         Check.due("all six", x.lead(), 6);
-        Check.due("again", x.lead(), 6);
-        change(x, solid(0, 10, 10, 0, 9, 0, 7));
-        Check.due("none of six", x.lead(), 0);
-        for (int i = 0; i < 6; i++) {
+        wayIs(x, 0, 8, 1, "04");
+        change(x, pipe(0, 0, 0, 0, 0, 0, 0, 0));
+        Check.due("all six", x.lead(), 6);
+        wayIs(x, 0, 0, 0, "");
+        change(x, solid(0, 10, 10, 1, 9, 0, 7), solid(1, 10, 10, 0, 0, 0, 7));
+        Check.due("the one cell alone", x.lead(), 1);
+        for (int i = 1; i < 6; i++) {
             noWay(x, i);
         }
     }

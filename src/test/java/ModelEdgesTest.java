@@ -1357,7 +1357,7 @@ public final class ModelEdgesTest {
         faultIs(x, 1, 0);
         Check.due("undo", x.undo(1), 2);
         faultIs(x, 0, NO);
-        Check.says("0: it met none, because of a CLASH");
+        Check.says("0: it met none, because of a CLASH, a lesser ROW's FAULT, or FULL, too");
         Check.text(x, "?");
         x.open(1);
         x.get(1, 11, 0, 0);
@@ -1368,7 +1368,7 @@ public final class ModelEdgesTest {
         faultIs(x, 1, 0);
         Check.due("a CLASH", x.commit(1), -238);
         faultIs(x, 0, NO);
-        Check.says("0: it met none, because of a lesser ROW's FAULT");
+        Check.says("a lesser ROW's FAULT");
         Check.text(x, "?");
         x.open(1);
         Check.tape(x, "?");
@@ -1382,7 +1382,7 @@ public final class ModelEdgesTest {
         Check.text(x, "?");
         Check.due("an undo() with a CLASH", x.undo(3), -238);
         faultIs(x, 0, NO);
-        Check.says("0: it met none, because of FULL, too");
+        Check.says("or FULL, too");
         x = almostFull();
         Check.text(x, "?");
         faultIs(x, 1, 0);

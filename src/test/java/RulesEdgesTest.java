@@ -1040,7 +1040,8 @@ public final class RulesEdgesTest {
 
     private static void wordsOfTheSea() {
         Check.says("Of sea(), if it RESTS: level, trim, heel (a, b, c by 64), water, weight (V, W by 1024), rounds; "
-                + "draught(s), force(k), bend(k), k 0 .. 16; lever(c)");
+                + "draught(s) ((a + b (2 s - 15)) by 64), force(k), bend(k) (FORCE(k), BEND(k), both by 1024), k 0 .. 16; "
+                + "lever(c) (U(TRIM(c), c), a whole c)");
         String[] sums = {"level", "trim", "heel", "water", "weight", "rounds", "draught(0)", "draught(15)", "draught(16)",
             "draught(-1)", "force(0)", "force(4)", "force(16)", "force(17)", "force(-1)", "bend(0)", "bend(8)", "bend(16)",
             "bend(17)", "bend(-1)", "lever(0)", "lever(2049)", "lever(-2049)", "lever(2048)+lever(-2048)", "lever(1/2)"};

@@ -33,6 +33,7 @@ public final class SeaEdgesTest {
         alongAnswers();
         loads();
         steel();
+        nothingRunsOver();
         Check.end();
     }
 
@@ -147,7 +148,7 @@ public final class SeaEdgesTest {
         Check.due("no hull, no WEIGHT", x.sea(0), SINKS);
         Check.due("W", x.rest(3), 0);
         Check.due("V of all of it", x.rest(4), 0);
-        Check.says("TRIM(c): none, if T(low, c) is above 0, or T(high, c) is not");
+        Check.says("none, if T(low, c) is above 0, or T(high, c) is not");
         x = box(100, 0);
         Check.due("no WEIGHT: T(high, c) is 0", x.sea(0), NO_REST);
         Check.due("W", x.rest(3), 0);
@@ -388,7 +389,7 @@ public final class SeaEdgesTest {
     }
 
     private static void noTrim() {
-        Check.says("TRIM(c): none, if T(low, c) is above 0, or T(high, c) is not");
+        Check.says("none, if T(low, c) is above 0, or T(high, c) is not");
         Yard x = twoColumns(4, 1, 2, 4, 0);
         Check.due("T(low, c) is above 0", x.sea(0), NO_REST);
         Check.due("arm", x.arm(0), NONE);
@@ -424,7 +425,7 @@ public final class SeaEdgesTest {
     }
 
     private static void noHeel() {
-        Check.says("HEEL likewise: none, if U at low is above 0, or U at high is not");
+        Check.says("HEEL likewise by U(TRIM(c), c) for c");
         Yard x = twoColumns(1, 8, 1, 7, -3);
         Check.due("U at low is above 0", x.sea(0), NO_REST);
         x = twoColumns(1, 8, 1, 7, 2);
@@ -456,7 +457,7 @@ public final class SeaEdgesTest {
         x = fickle(1, 0);
         Check.due("TRIM(1600) is none, but is not looked at", x.sea(0), RESTS);
         plane(x, -1500, -1756, 0);
-        Check.says("NONE: no TRIM(c)");
+        Check.says("NONE: c is not -2048 .. 2048, no REST, DOWN, no TRIM(c)");
         for (int c : new int[] {-1600, 1536, 1600}) {
             Check.due("arm(" + c + ")", x.arm(c), NONE);
             Check.due("arm(" + c + ") asked again", x.arm(c), NONE);
@@ -732,6 +733,23 @@ public final class SeaEdgesTest {
         Check.due("FORCE(16)", x.along(1, 16), 0);
         Check.due("BEND(16)", x.along(2, 16), 0);
         Check.due("BEND(8)", x.along(2, 8), 32 * -819200);
+    }
+
+    private static void nothingRunsOver() {
+        Check.says("All in 64 bits, nothing runs over");
+        Yard x = box(2000, 16000, row(0, 0, 500, 500));
+        Check.due("sea", x.sea(0), RESTS);
+        plane(x, 64000, 0, 0);
+        long w = 16L * 1024 * 16000;
+        Check.due("VZ - WZ", x.rest(11), w * (64000 - 1280));
+        for (int c = -2048; c <= 2048; c += 4096) {
+            long vy = 256L * c * 1360;
+            long vz = 256L * (16L * 64000 * 64000 + 2048L * 2048 * 1360);
+            Check.due("arm(" + c + ")", x.arm(c), 2048L * 500 * 500 * vy + c * (vz - w * 1280));
+        }
+        x = box(2000, 31999, row(0, 0, 500, 500));
+        Check.due("one UNIT from SINKING", x.sea(0), RESTS);
+        plane(x, 127996, 0, 0);
     }
 
     private static void steel() {

@@ -943,7 +943,7 @@ public final class ShopEdgesTest {
     }
 
     private static void orders() {
-        Check.says("THE PLAN is that of the ORDER whose last day is least; of several the first, as rows of numbers");
+        Check.says("THE PLAN is that of the ORDER whose last day is least .. of several the first, as rows of numbers");
         planIs(work(6, 6, task(0, 1, 0, 0, 0, 0), task(1, 1, 0, 0, 0, 0), task(6, 1, 0, 0, 0, 0)), 1,
                 0, 0, 0, 1, NO, NO, NO, NO, NO, NO, NO, NO, 0, 2);
         // The long one first: 5; else it begins on day 2.

@@ -761,6 +761,10 @@ public final class ModelEdgesTest {
         wrong("no bits in row 0", 112, plate(7, 0, 1, 1, 1));
         wrong("no bit 0", 112, plate(7, 16777214, 16777214, 16777214, 4));
         wrong("neither", 112, plate(7, 0, 2, 2, 1));
+        for (int wanted = 1; wanted <= 4; wanted++) {
+            wrong("no bit 0, " + wanted + " wanted", 105, row(7, 0, 2, 2, 2, 2, 2, 2, 2, 2, 2, 2, 2, 2, wanted, 1));
+            wrong("no bits in row 0, " + wanted + " wanted", 105, row(7, 0, 0, 1, 1, 1, 1, 1, 1, 1, 1, 1, 1, 1, wanted, 1));
+        }
         right("not wanted: no cells", plate(0, 0, 0, 0, 0));
         right("not wanted: no bits in row 0", plate(0, 0, 1, 0, 0));
         right("not wanted: no bit 0", plate(0, 2, 0, 0, 0));
@@ -993,6 +997,17 @@ public final class ModelEdgesTest {
         Check.due("undo(3), which a later one undid", x.undo(3), -100);
         Check.due("undo(4), the latest that changed something", x.undo(4), 7);
         Check.due("undo(6), which changed nothing", x.undo(6), 8);
+        Check.says("The ROWS that a COMMIT changed become what they were ahead of it");
+        x = with(row(11, 0, 5));
+        set(x, row(11, 1, 6));
+        set(x, row(11, 2, 7));
+        Check.due("undo(3)", x.undo(3), 4);
+        Check.due("undo(1) behind undo(3)", x.undo(1), 5);
+        Check.due("undo(2) behind both", x.undo(2), 6);
+        for (int k = 0; k < 3; k++) {
+            Check.due("ROD " + k, x.model(11, k, 0), 0);
+        }
+        Check.says("-100 less the first of these ROWS that a later COMMIT changed");
         x = with(row(11, 4, 5), row(11, 7, 5));
         set(x, row(11, 7, 6), row(11, 2, 6));
         Check.due("one of two ROWS", x.undo(1), -100 - 145);

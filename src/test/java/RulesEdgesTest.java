@@ -241,6 +241,9 @@ public final class RulesEdgesTest {
         wrong(2, 0, "le t a = 1;");
         wrong(2, 10, "let a = 1 2;");
         wrong(2, 13, "rule r = 1 < = 2;");
+        wrong(2, 13, "rule r = 1 <=");
+        wrong(2, 13, "rule r = 1 >=");
+        wrong(2, 12, "rule r = 1 <");
         wrong(2, 13, "rule r = 1 > = 2;");
         for (int b : new int[] {0, 1, 9, 11, 13, 31, 127, 128, 160, 255}) {
             wrong(1, 3, "let" + (char) b + "a = 1;");
@@ -610,6 +613,10 @@ public final class RulesEdgesTest {
         Check.due("none such", x.verdict(24), BAD);
         Check.due("the last let", x.let(39, 0), 1);
         Check.due("none such", x.let(40, 0), NONE);
+        Check.due("the same TEXT again", Check.text(x, lets(40) + someTables(8) + someRules(24)), 2);
+        Check.due("the same TEXT again", Check.text(x, lets(40) + someTables(8) + someRules(24)), 3);
+        Check.due("a FAULT", Check.text(x, lets(40) + someTables(8) + someRules(24) + "?"), -447);
+        Check.due("the same TEXT again", Check.text(x, lets(40) + someTables(8) + someRules(24)), 4);
         String all = lets(39) + someTables(8) + someRules(24);
         x = text(all + "let z=nbm+qh(1);");
         Check.due("the last one of each", x.let(39, 0), 2);
@@ -628,6 +635,15 @@ public final class RulesEdgesTest {
         Check.due("the 12th POINT", x.let(0, 0), 7);
         Check.due("the 11th POINT", x.let(1, 0), 1);
         Check.due("behind the 12th POINT", x.let(2, 0), 7);
+        for (int i = 2; i <= 5; i++) {
+            Check.due("twelve POINTS again", Check.text(x, manyPoints(12) + "; let a = t(11);"), i);
+            Check.due("the 12th POINT", x.let(0, 0), 1);
+        }
+        for (int i = 6; i <= 8; i++) {
+            Check.due("two POINTS", Check.text(x, "table t = 3:4, 5:8; let a = t(9); let b = t(4);"), i);
+            Check.due("behind the second POINT", x.let(0, 0), 8);
+            Check.due("between both", x.let(1, 0), 6);
+        }
     }
 
     private static void tooDeep() {
@@ -655,6 +671,23 @@ public final class RulesEdgesTest {
         wrong(5, 23 + 2 * 24, "table t = 1:1; let a = " + times(24, "t(") + "1" + times(24, ")") + ";");
         right("let a = " + times(11, "if(") + "1" + times(11, "=1,1,1)") + ";");
         wrong(5, 8 + 3 * 12, "let a = " + times(12, "if(") + "1" + times(12, "=1,1,1)") + ";");
+        // Each part of a FACTOR or NOT counts, wherever it stands.
+        String[] ahead = {"if(1=1,", "if(1=1,1,", "min(k,1,", "1+(1-", "2*(", "t("};
+        String[] behind = {",1)", ")", ",1)", ")", ")", ")"};
+        int[] last = {3, 3, 6, 3, 3, 2};
+        for (int i = 0; i < ahead.length; i++) {
+            int most = i < 2 ? 22 : 23;
+            String text = "table t = 1:1; let a = ";
+            right(text + times(most, ahead[i]) + "1" + times(most, behind[i]) + ";");
+            wrong(5, text.length() + most * ahead[i].length() + last[i],
+                    text + times(most + 1, ahead[i]) + "1" + times(most + 1, behind[i]) + ";");
+        }
+        String counters = "1";
+        for (int i = 0; i < 23; i++) {
+            counters = "sum(" + RulesTest.name(i) + ",1,1," + counters + ")";
+        }
+        right("let a = " + counters + ";");
+        wrong(5, 8 + 23 * 12 + 1, "let a = " + counters.replace("1,1,1)", "1,1,-1)") + ";");
         right("let a = " + times(23, "sum(k,") + "1" + times(23, ",1,1)") + ";");
         wrong(5, 8 + 6 * 24, "let a = " + times(24, "sum(k,") + "1" + times(24, ",1,1)") + ";");
         right("let a = " + times(23, "(") + "1+1*1-1" + times(23, ")") + "+" + times(23, "(") + "1" + times(23, ")") + ";");
@@ -1023,6 +1056,7 @@ public final class RulesEdgesTest {
         x.plan();
         for (int k = 0; k < sums.length; k++) {
             Check.due(sums[k], x.let(k, 0), dues[k]);
+            Check.due("below of " + sums[k], x.let(k, 1), dues[k] == NONE ? NONE : 1);
         }
     }
 
@@ -1067,6 +1101,17 @@ public final class RulesEdgesTest {
         x.crash(0);
         x.reopen();
         Check.due("not worked out since", x.let(0, 0), NONE);
+        Check.says("draught(s) ((a + b (2 s - 15)) by 64)");
+        x = new Yard();
+        x.open(0);
+        Check.newRow(x, 0, 0, 4, 1);
+        Check.newRow(x, 1, 7, 0, 100, 100, 100, 100, 100, 100, 100, 100);
+        Check.newRow(x, 3, 0, 2, 5, 5);
+        Check.newRow(x, 2, 1, 1, 15, 15, 0, 15, 0, 9, 0);
+        Check.newRow(x, 5, 0, 1, 0, 15, 448, -1, 1);
+        x.commit(0);
+        sumsOf(x, new String[] {"level", "trim", "heel", "rounds", "draught(0)", "draught(6)", "draught(7)", "draught(8)",
+            "draught(15)"}, new long[] {-31, -32, 0, 1, 449, 65, 1, -63, -511});
         Check.says("level, trim, heel (a, b, c by 64)");
         x = box(1601);
         Check.text(x, "let a = level; let b = water; let c = weight;");
@@ -1104,6 +1149,11 @@ public final class RulesEdgesTest {
         Check.newRow(x, 2, 15, 1, 2, 2, 0, 0, 0, 81, 16);
         Check.newRow(x, 2, 14, 2, 9, 9, 0, 15, 0, 2000, 16);
         Check.newRow(x, 4, 1, 8);
+        // What stands ahead of the first SPACE and behind the last one is no SPACE.
+        Check.newRow(x, 1, 15, 1, 2, 3, 4, 5, 6, 7, 8, 9);
+        Check.newRow(x, 3, 0, 1, 0, 1, 2, 3);
+        Check.newRow(x, 3, 1, 1, 0, 1, 2, 3);
+        Check.newRow(x, 5, 0, 0, 1, 1, 1, 1, 1);
         Check.due("commit", x.commit(0), 1);
         sumsOf(x, new String[] {"room(0)", "room(1)", "room(2)", "room(15)", "room(16)", "room(-1)", "room(14)", "fill(0)",
             "fill(1)", "fill(2)", "fill(15)", "fill(16)", "fill(-1)", "fill(14)"},

@@ -18,6 +18,8 @@ public final class SeaEdgesTest {
         liquids();
         liquidPoints(0);
         liquidPoints(12);
+        liquidMoments();
+        openTanks();
         steepestTrim();
         noTrim();
         steepestHeel();
@@ -163,6 +165,11 @@ public final class SeaEdgesTest {
         Check.due("up to the DECK", x.water(3, 7), 640);
         Check.due("no COLUMN", x.water(3, 0), 0);
         Check.due("up to the plane", x.water(4, 7), x.rest(5) + x.rest(6) * -7 - x.rest(7));
+        x = box(100, 500, row(1, 3, 0, 0, 0, 0, 0, 0, 0, 20, 10), row(1, 12, 0, 0, 0, 0, 0, 0, 0, 20, 10));
+        Check.due("sea", x.sea(0), RESTS);
+        Check.due("no COLUMN, though the plane is above its BOTTOM", x.water(3, 0), 0);
+        plane(x, 2205, 0, 0);
+        Check.due("V", x.rest(8), 16L * (14 * 16 * 2205 + 2 * 14 * 640));
         x = box(100, 500, row(1, 7, 0, 0, 0, 0, 0, 0, 0, 99, 100), row(1, 8, 0, 0, 0, 0, 0, 0, 0, 99, 100));
         Check.due("sea", x.sea(0), RESTS);
         Check.due("a BOTTOM above the plane", x.water(7, 15), 0);
@@ -363,6 +370,40 @@ public final class SeaEdgesTest {
         Check.due("FORCE(16)", x.along(1, 16), -64);
     }
 
+    private static void liquidMoments() {
+        Check.says("of these WX, WY, WZ have POINTS times weight times 2 s - 15, times 2 k - 15, times (lower + upper end)");
+        Yard x = box(100, 800, row(2, 9, 2, 0, 0, 12, 12, 5, 100, 0), row(4, 9, 40, 32));
+        Check.due("sea", x.sea(0), RESTS);
+        long vx = 0;
+        long vy = 0;
+        long vz = 0;
+        for (int i = 0; i < 256; i++) {
+            long points = x.water(i / 16, i % 16);
+            vx += 16 * points * (2 * (i / 16) - 15);
+            vy += 16 * points * (2 * (i % 16) - 15);
+            vz += 16 * points * points;
+        }
+        long liquid = 64L * 40 * 32;
+        Check.due("the first SLICE's COLUMN 12, 40 UNITS from HEIGHT 5 on", x.liquid(9), 45 * 64 + 15 * x.rest(6) - 9 * x.rest(7));
+        Check.due("VX - WX", x.rest(9), vx + 15 * liquid);
+        Check.due("VY - WY", x.rest(10), vy - 9 * liquid);
+        Check.due("VZ - WZ", x.rest(11), vz - 16L * 1024 * 800 * 1280 - liquid * (5 + 45) * 64);
+        Check.due("W", x.rest(3), 16L * 1024 * 800 + liquid);
+    }
+
+    private static void openTanks() {
+        Check.says("of each FILL with UNITS (its SPACE not OPEN)");
+        Yard x = box(100, 800, row(2, 0, 2, 0, 15, 0, 15, 0, 1, 16), row(4, 0, 256, 16));
+        Check.due("sea", x.sea(0), RESTS);
+        plane(x, 3264, 0, 0);
+        Check.due("LOAD", x.along(0, 5), 0);
+        Check.due("VZ - WZ", x.rest(11), 4096L * 3264 * 3264 - 16L * 1024 * 800 * 1280 - 64L * 256 * 16 * 64);
+        Check.due("sea", x.sea(1), RESTS);
+        plane(x, 3200, 0, 0);
+        Check.due("LOAD", x.along(0, 5), 0);
+        Check.due("VZ - WZ", x.rest(11), 4096L * 3200 * 3200 - 16L * 1024 * 800 * 1280);
+    }
+
     // ---- trim and heel
 
     private static void steepestTrim() {
@@ -422,6 +463,10 @@ public final class SeaEdgesTest {
         x = twoColumns(1, 8, 2, 7, -2);
         Check.due("U at -1024 is 0", x.sea(0), RESTS);
         plane(x, 128 - 1024, 0, -1024);
+        // U is 2048 64 (-W) + c 320 W: below 0 up to 409.
+        x = twoColumns(1, 8, 5, 7, 2);
+        Check.due("U at 409 is the last below 0", x.sea(0), RESTS);
+        plane(x, 320 - 409, 0, 409);
     }
 
     private static void noHeel() {

@@ -192,6 +192,12 @@ public final class ShopEdgesTest {
         x.nest(0);
         Check.due("three cells, of all rows and bits", x.piece(0, 0), 7);
         Check.due("two cells, of all rows and bits", x.piece(1, 0), 0);
+        x = with(sheetSize(64, 48), plate(0, 1, 0, 3), plate(1, 3, 1, 3), plate(2, 2, 0, 3));
+        x.nest(0);
+        int[] alike = {0, 1, 1, 1, 2, 2};
+        for (int k = 0; k < alike.length; k++) {
+            Check.due("by number, however many are wanted: PIECE " + k, x.piece(k, 0), alike[k]);
+        }
     }
 
     private static void mostPieces() {
@@ -511,6 +517,16 @@ public final class ShopEdgesTest {
         x = with(sheetSize(7, 2), plate(0, 1, 0, 5, 5));
         x.nest(0);
         sheetIs(x, 0, 1, 4, 2, 12, 2, 8);
+        // From the first cell down, along the last row, and up again.
+        x = with(sheetSize(4, 3), plate(0, 1, 0, 5, 4));
+        x.nest(0);
+        sheetIs(x, 0, 1, 3, 2, 10, 1, 9);
+        // One SHEET after the other.
+        x = with(sheetSize(2, 2), plate(0, 1, 0, 3, 3), plate(1, 1, 0, 1, 2));
+        x.nest(0);
+        sheetIs(x, 2, 0, 0, 0, 0, 1, 4);
+        sheetIs(x, 1, 1, 2, 2, 8, 2, 1);
+        sheetIs(x, 0, 1, 4, 2, 8, 0, 0);
     }
 
     // ---- rods
@@ -720,6 +736,13 @@ public final class ShopEdgesTest {
                 Check.due("cell " + e[0] + ", " + e[1] + ", " + e[2] + " by GAP " + gap, x.lead(), e[3] <= gap ? 0 : 1);
             }
         }
+        // Beyond the grid's end there is nothing, so nothing is BARRED at the other end.
+        int[][] corners = {{19, 9, 3, 0, 9, 3}, {19, 8, 3, 0, 9, 3}, {0, 9, 3, 19, 8, 3}, {5, 9, 3, 5, 0, 4}, {5, 0, 4, 5, 9, 3},
+            {5, 5, 0, 5, 5, 7}, {5, 5, 7, 5, 5, 0}, {0, 5, 5, 19, 5, 5}, {0, 0, 0, 19, 9, 7}, {19, 9, 7, 0, 0, 0}};
+        for (int[] c : corners) {
+            Yard x = with(pipe(0, c[3], c[4], c[5], c[3], c[4], c[5], 1), solid(0, c[0], c[0], c[1], c[1], c[2], c[2]));
+            Check.due("cell " + c[3] + ", " + c[4] + ", " + c[5], x.lead(), 1);
+        }
         Yard x = with(pipe(0, 0, 0, 0, 4, 0, 0, 0), row(8, 0, 0, 2, 2, 0, 9, 0, 7));
         Check.due("a SOLID that is not there", x.lead(), 1);
         x = with(pipe(0, 0, 1, 0, 4, 1, 0, 0), solid(0, 0, 19, 0, 0, 0, 7));
@@ -908,6 +931,9 @@ public final class ShopEdgesTest {
         planIs(work(6, 6, task(0, 3, 1, 1, 0, 6), task(1, 4, 1, 1, 0, 0), task(2, 2, 1, 1, 5, 0)), 10, 7, 2, 0, 0, 5, 1);
         planIs(work(6, 6, task(0, 1, 0, 0, 0, 64), task(6, 20, 0, 0, 0, 0)), 21, 20, 1, NO, NO, NO, NO, NO, NO, NO, NO, NO, NO,
                 0, 0);
+        planIs(work(6, 6, task(0, 3, 1, 1, 0, 0), task(1, 4, 1, 1, 0, 1)), 7, 0, 0, 3, 1);
+        planIs(work(6, 6, task(0, 3, 1, 1, 0, 0), task(1, 2, 1, 1, 0, 0), task(6, 4, 1, 1, 0, 3)), 7, 0, 0, 0, 1, NO, NO, NO, NO,
+                NO, NO, NO, NO, 3, 2);
         Check.says("each behind those that must have ended ahead of it");
         planIs(work(6, 6, task(0, 1, 0, 0, 0, 2), task(1, 1, 0, 0, 0, 4), task(2, 1, 0, 0, 0, 8), task(3, 1, 0, 0, 0, 16),
                 task(4, 1, 0, 0, 0, 32), task(5, 1, 0, 0, 0, 64), task(6, 1, 0, 0, 0, 0)), 7,

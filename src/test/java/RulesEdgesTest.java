@@ -1114,8 +1114,11 @@ public final class RulesEdgesTest {
             "draught(15)"}, new long[] {-31, -32, 0, 1, 449, 65, 1, -63, -511});
         Check.says("level, trim, heel (a, b, c by 64)");
         x = box(1601);
-        Check.text(x, "let a = level; let b = water; let c = weight;");
+        Check.text(x, "let a = level; let b = water; let c = weight; let d = lever(1); let e = lever(-2048);");
         x.sea(0);
+        Check.due("lever(1)", x.let(3, 0), x.arm(1));
+        Check.due("below of it", x.let(3, 1), 1);
+        Check.due("lever(-2048)", x.let(4, 0), x.arm(-2048));
         Check.due("a", x.rest(5), 3202);
         Check.due("above", x.let(0, 0), 1601);
         Check.due("below", x.let(0, 1), 32);
@@ -1302,6 +1305,8 @@ public final class RulesEdgesTest {
         Check.says("12 RULES, 1: 0 how many bytes its TEXT has (0 .. 1200)");
         String longest = "let a = 1" + times(595, "+1");
         right(longest.substring(0, 1199) + ";");
+        wrong(2, 0, times(1200, ";"));
+        wrong(2, 1200, "let a=1" + times(596, "+1") + "+");
         Yard x = text(longest.substring(0, 1199) + ";");
         Check.due("bytes", x.model(12, 0, 0), 1200);
         Check.due("a sum of 596", x.let(0, 0), 596);

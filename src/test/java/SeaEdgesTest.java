@@ -393,15 +393,16 @@ public final class SeaEdgesTest {
 
     private static void openTanks() {
         Check.says("of each FILL with UNITS (its SPACE not OPEN)");
-        Yard x = box(100, 800, row(2, 0, 2, 0, 15, 0, 15, 0, 1, 16), row(4, 0, 256, 16));
+        Yard x = box(100, 800, row(2, 0, 2, 0, 15, 0, 15, 0, 1, 8), row(4, 0, 256, 16));
         Check.due("sea", x.sea(0), RESTS);
         plane(x, 3264, 0, 0);
         Check.due("LOAD", x.along(0, 5), 0);
         Check.due("VZ - WZ", x.rest(11), 4096L * 3264 * 3264 - 16L * 1024 * 800 * 1280 - 64L * 256 * 16 * 64);
         Check.due("sea", x.sea(1), RESTS);
-        plane(x, 3200, 0, 0);
+        // 64 POINTS of each COLUMN count 8 BITS.
+        plane(x, 3232, 0, 0);
         Check.due("LOAD", x.along(0, 5), 0);
-        Check.due("VZ - WZ", x.rest(11), 4096L * 3200 * 3200 - 16L * 1024 * 800 * 1280);
+        Check.due("VZ - WZ", x.rest(11), 256L * (16L * 3232 * 3232 - 8 * 64 * 64) - 16L * 1024 * 800 * 1280);
     }
 
     // ---- trim and heel
@@ -778,6 +779,10 @@ public final class SeaEdgesTest {
         Check.due("FORCE(16)", x.along(1, 16), 0);
         Check.due("BEND(16)", x.along(2, 16), 0);
         Check.due("BEND(8)", x.along(2, 8), 32 * -819200);
+        // Full tanks: all their POINTS lie in their SLICES.
+        x = box(100, 800, row(2, 0, 2, 7, 7, 7, 7, 0, 16, 0), row(2, 1, 2, 8, 8, 8, 8, 0, 9, 0), row(4, 0, 16, 5), row(4, 1, 9, 5));
+        Check.due("sea", x.sea(0), RESTS);
+        Check.due("FORCE(16)", x.along(1, 16), x.rest(3) - x.rest(8));
     }
 
     private static void nothingRunsOver() {
